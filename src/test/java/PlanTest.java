@@ -84,8 +84,12 @@ public final class PlanTest {
 
   /** The cost of source 0 with a condition before source 1, with 20 rows, shows the SHARE. */
   private static float costBehind(int operator, int number) {
+    return costBehind(operator, number, 3, 3, 5, 9, 9, 9, 12);
+  }
+
+  private static float costBehind(int operator, int number, int... values) {
     QueryDesk desk = new QueryDesk();
-    fill(desk, 0, new int[] {3, 3, 5, 9, 9, 9, 12});
+    fill(desk, 0, values);
     fill(desk, 1, turns(20, 20));
     desk.from(0);
     desk.from(1);
@@ -102,6 +106,12 @@ public final class PlanTest {
     CHECK.sameFloat("16: share of not equal", costBehind(3, 3), 7f + 7f * (1f - 1f / 4f) * 20f);
     CHECK.sameFloat("16: share of <", costBehind(1, 7), 7f + 7f * (4f / 10f) * 20f);
     CHECK.sameFloat("16: share of >", costBehind(2, 7), 7f + 7f * (5f / 10f) * 20f);
+    CHECK.sameFloat("16: GREATEST comes first", costBehind(2, 6, 9, 4, 5), 3f + 3f * (3f / 6f) * 20f);
+    CHECK.sameFloat("16: LEAST comes last", costBehind(1, 6, 9, 5, 4), 3f + 3f * (2f / 6f) * 20f);
+    CHECK.sameFloat("16: one row, =", costBehind(0, 6, 9), 1f + 20f);
+    CHECK.sameFloat("16: one row, not equal", costBehind(3, 6, 9), 1f);
+    CHECK.sameFloat("16: one row, <", costBehind(1, 10, 9), 1f + 20f);
+    CHECK.sameFloat("16: one row, >", costBehind(2, 8, 9), 1f + 20f);
   }
 
   private static void sharesStayBetweenNothingAndAll() {
@@ -109,6 +119,8 @@ public final class PlanTest {
     CHECK.sameFloat("16: < far below", costBehind(1, Integer.MIN_VALUE), 7f);
     CHECK.sameFloat("16: < GREATEST", costBehind(1, 12), 7f + 7f * (9f / 10f) * 20f);
     CHECK.sameFloat("16: < above all", costBehind(1, 13), 7f + 7f * 20f);
+    CHECK.sameFloat("16: < a little more", costBehind(1, 15), 7f + 7f * 20f);
+    CHECK.sameFloat("16: > a little less", costBehind(2, 0), 7f + 7f * 20f);
     CHECK.sameFloat("16: < far above", costBehind(1, Integer.MAX_VALUE), 7f + 7f * 20f);
     CHECK.sameFloat("16: > GREATEST", costBehind(2, 12), 7f);
     CHECK.sameFloat("16: > far above", costBehind(2, Integer.MAX_VALUE), 7f);

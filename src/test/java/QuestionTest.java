@@ -58,8 +58,8 @@ public final class QuestionTest {
     CHECK.same("9: no outputs", desk.order(0, false), false);
     CHECK.same("9: no sources", desk.where(0, 0, 0, 0), false);
     CHECK.same("9: sources begin at 0", desk.from(0), 0);
-    CHECK.same("9: outputs begin at 0", desk.select(0, 0), 0);
-    CHECK.sameText("9: no condition, join, order or limit is left", answers(desk, 1), "0 1 2 3 4 5");
+    CHECK.same("9: outputs begin at 0", desk.select(0, 1), 0);
+    CHECK.sameText("9: no condition, join, order or limit is left", answers(desk, 1), "0 1 2 0 1 2");
     CHECK.same("9: rows stay", desk.look(3), 6);
     desk.ask();
     CHECK.same("9: not planned", desk.look(0), 0);

@@ -75,14 +75,22 @@ public final class TablesTest {
       desk.insert(0, i, i, 0, 0);
       desk.delete(0, i);
     }
-    desk.index(0, 1, 0);
-    desk.index(0, 1, 1);
-    CHECK.same("2: anew", desk.create(0, 3), true);
-    CHECK.same("2: no rows", desk.look(3), 0);
-    CHECK.same("2: no hash index", desk.drop(0, 1, 0), false);
-    CHECK.same("2: no ordered index", desk.drop(0, 1, 1), false);
+    CHECK.same("2: anew", desk.create(0, 4), true);
     CHECK.same("2: numbers begin again", desk.insert(0, 1, 2, 3, 4), 0);
+    for (int column = 0; column < 4; column++) {
+      desk.index(0, column, 0);
+      desk.index(0, column, 1);
+    }
+    desk.index(1, 0, 1);
+    CHECK.same("2: anew with as many columns", desk.create(0, 4), true);
+    CHECK.same("2: no rows", desk.look(3), 0);
+    CHECK.fails("2: no row", NoSuchElementException.class, () -> desk.cell(0, 0, 0));
+    for (int column = 0; column < 4; column++) {
+      CHECK.same("2: no hash index", desk.drop(0, column, 0), false);
+      CHECK.same("2: no ordered index", desk.drop(0, column, 1), false);
+    }
     CHECK.same("2: other table stays", desk.cell(1, 0, 0), 7);
+    CHECK.same("2: with its index", desk.drop(1, 0, 1), true);
   }
 
   private static void createEmptiesTheQuestion() {
