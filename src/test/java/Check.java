@@ -1,11 +1,19 @@
 /** Counts and prints the answers that are not the ones that are due. */
 final class Check {
   private final String name;
+  private String sentence = "";
+  private int sentences = 0;
   private int made = 0;
   private int wrong = 0;
 
   Check(String name) {
     this.name = name;
+  }
+
+  /** The answers that follow test these words of the document, the promise's number before them. */
+  void sentence(String words) {
+    sentence = "\"" + words + "\": ";
+    sentences++;
   }
 
   void same(String what, long got, long due) {
@@ -37,7 +45,8 @@ final class Check {
   }
 
   void end() {
-    System.out.println(name + ": " + made + " answers, " + wrong + " not as due");
+    String tested = sentences == 0 ? "" : sentences + " sentences, ";
+    System.out.println(name + ": " + tested + made + " answers, " + wrong + " not as due");
     if (wrong > 0) {
       System.exit(1);
     }
@@ -47,7 +56,7 @@ final class Check {
     made++;
     if (!right) {
       wrong++;
-      System.out.println(name + ": " + what + " answered " + got + ", due is " + due);
+      System.out.println(name + ": " + sentence + what + " answered " + got + ", due is " + due);
     }
   }
 }

@@ -106,7 +106,7 @@ public final class MirrorTest {
         explain(k, what);
       }
     }
-    for (int i = 0; i < 12 && desk.look(0) == 1; i++) {
+    for (int i = 0; i < 12 && mirror.look(0) == 1; i++) {
       run();
       look(1);
       look(2);
@@ -115,15 +115,15 @@ public final class MirrorTest {
       }
     }
     look(0);
-    if (desk.look(0) == 2 && desk.look(2) > 0) {
+    if (mirror.look(0) == 2 && mirror.look(2) > 0) {
       answered++;
     }
-    for (int i = 0; i <= desk.look(2) && i < 8; i++) {
+    for (int i = 0; i <= mirror.look(2) && i < 8; i++) {
       for (int k = 0; k < 4; k++) {
         answer(i, k);
       }
     }
-    answer(desk.look(2) - 1, 0);
+    answer(mirror.look(2) - 1, 0);
   }
 
   private void oneCall() {
@@ -280,7 +280,11 @@ public final class MirrorTest {
     same("answer", () -> desk.answer(number, k), () -> mirror.answer(number, k));
   }
 
+  /** Nothing is promised behind the last of the calls, so no call is made there. */
   private void same(String what, Supplier<Object> call, Supplier<Object> due) {
+    if (made == CALLS) {
+      return;
+    }
     made++;
     check.sameText(what, told(call), told(due));
   }

@@ -21,37 +21,6 @@ public final class PlanTest {
     CHECK.end();
   }
 
-  /** A table with as many rows as values[0] has; values[c] are column c's. */
-  private static void fill(QueryDesk desk, int table, int[]... values) {
-    desk.create(table, values.length);
-    for (int i = 0; i < values[0].length; i++) {
-      int b = values.length > 1 ? values[1][i] : 0;
-      int c = values.length > 2 ? values[2][i] : 0;
-      int d = values.length > 3 ? values[3][i] : 0;
-      desk.insert(table, values[0][i], b, c, d);
-    }
-  }
-
-  /** n rows with the values 0 .. different - 1 in turn. */
-  private static int[] turns(int n, int different) {
-    int[] values = new int[n];
-    for (int i = 0; i < n; i++) {
-      values[i] = i % different;
-    }
-    return values;
-  }
-
-  private static String plan(QueryDesk desk, int sources) {
-    StringBuilder text = new StringBuilder();
-    for (int k = 0; k < sources; k++) {
-      text.append(k == 0 ? "" : " ");
-      for (int what = 0; what < 4; what++) {
-        text.append(what == 0 ? "" : ",").append(desk.explain(k, what));
-      }
-    }
-    return text.toString();
-  }
-
   private static void planRefuses() {
     QueryDesk desk = new QueryDesk();
     desk.create(0, 1);
@@ -74,12 +43,12 @@ public final class PlanTest {
 
   private static void scan() {
     QueryDesk desk = new QueryDesk();
-    fill(desk, 0, turns(7, 7));
+    Desks.fill(desk, 0, Desks.turns(7, 7));
     desk.from(0);
     desk.select(0, 0);
     desk.where(0, 0, 0, 1);
     CHECK.sameFloat("16: scan", desk.plan(), 7f);
-    CHECK.sameText("17: scan", plan(desk, 1), "0,0,-1,-1");
+    CHECK.sameText("17: scan", Desks.plan(desk, 1), "0,0,-1,-1");
   }
 
   /** The cost of source 0 with a condition before source 1, with 20 rows, shows the SHARE. */
@@ -89,8 +58,8 @@ public final class PlanTest {
 
   private static float costBehind(int operator, int number, int... values) {
     QueryDesk desk = new QueryDesk();
-    fill(desk, 0, values);
-    fill(desk, 1, turns(20, 20));
+    Desks.fill(desk, 0, values);
+    Desks.fill(desk, 1, Desks.turns(20, 20));
     desk.from(0);
     desk.from(1);
     desk.where(0, 0, operator, number);
@@ -130,7 +99,7 @@ public final class PlanTest {
 
   private static void differencesAreLong() {
     QueryDesk desk = new QueryDesk();
-    fill(desk, 0, new int[] {Integer.MIN_VALUE, Integer.MAX_VALUE, 0, 1, 2, 3, 4, 5});
+    Desks.fill(desk, 0, new int[] {Integer.MIN_VALUE, Integer.MAX_VALUE, 0, 1, 2, 3, 4, 5});
     desk.index(0, 0, 1);
     desk.from(0);
     desk.where(0, 0, 1, 0);
@@ -153,20 +122,20 @@ public final class PlanTest {
 
   private static void waysOfConditions() {
     QueryDesk desk = new QueryDesk();
-    fill(desk, 0, turns(12, 3), turns(12, 12));
+    Desks.fill(desk, 0, Desks.turns(12, 3), Desks.turns(12, 12));
     CHECK.sameFloat("16: no index", oneSource(desk, 0, 0, 1), 12f);
     desk.index(0, 0, 1);
     CHECK.sameFloat("16: = by ORDERED", oneSource(desk, 0, 0, 1), 2f + 12f * (1f / 3f));
-    CHECK.sameText("17: = by ORDERED", plan(desk, 1), "0,2,0,-1");
+    CHECK.sameText("17: = by ORDERED", Desks.plan(desk, 1), "0,2,0,-1");
     desk.index(0, 0, 0);
     CHECK.sameFloat("16: = by HASH", oneSource(desk, 0, 0, 1), 1f + 12f * (1f / 3f));
-    CHECK.sameText("17: = by HASH", plan(desk, 1), "0,1,0,-1");
+    CHECK.sameText("17: = by HASH", Desks.plan(desk, 1), "0,1,0,-1");
     CHECK.sameFloat("16: < by ORDERED", oneSource(desk, 0, 1, 1), 2f + 12f * (1f / 3f));
-    CHECK.sameText("17: < by ORDERED", plan(desk, 1), "0,2,0,-1");
+    CHECK.sameText("17: < by ORDERED", Desks.plan(desk, 1), "0,2,0,-1");
     CHECK.sameFloat("16: > by ORDERED", oneSource(desk, 0, 2, 1), 2f + 12f * (1f / 3f));
-    CHECK.sameText("17: > by ORDERED", plan(desk, 1), "0,2,0,-1");
+    CHECK.sameText("17: > by ORDERED", Desks.plan(desk, 1), "0,2,0,-1");
     CHECK.sameFloat("16: not equal by SCAN", oneSource(desk, 0, 3, 1), 12f);
-    CHECK.sameText("17: not equal by SCAN", plan(desk, 1), "0,0,-1,-1");
+    CHECK.sameText("17: not equal by SCAN", Desks.plan(desk, 1), "0,0,-1,-1");
     CHECK.sameFloat("16: an index of another column", oneSource(desk, 1, 0, 1), 12f);
     desk.drop(0, 0, 1);
     CHECK.sameFloat("16: < has no HASH way", oneSource(desk, 0, 1, 1), 12f);
@@ -181,13 +150,13 @@ public final class PlanTest {
     desk.where(0, 1, 0, 7);
     desk.select(0, 0);
     CHECK.sameFloat("16: the fewer rows", desk.plan(), 1f + 12f * (1f / 12f));
-    CHECK.sameText("17: the fewer rows", plan(desk, 1), "0,1,1,-1");
+    CHECK.sameText("17: the fewer rows", Desks.plan(desk, 1), "0,1,1,-1");
   }
 
   private static void waysOfJoins() {
     QueryDesk desk = new QueryDesk();
-    fill(desk, 0, turns(3, 3));
-    fill(desk, 1, turns(20, 10), turns(20, 20));
+    Desks.fill(desk, 0, Desks.turns(3, 3));
+    Desks.fill(desk, 1, Desks.turns(20, 10), Desks.turns(20, 20));
     desk.index(1, 1, 1);
     desk.from(0);
     desk.from(1);
@@ -195,7 +164,7 @@ public final class PlanTest {
     desk.join(1, 1, 0, 0);
     desk.select(1, 0);
     CHECK.sameFloat("16: join by ORDERED", desk.plan(), 3f + 3f * (2f + 20f * (1f / 20f)));
-    CHECK.sameText("17: join by ORDERED", plan(desk, 2), "0,0,-1,-1 1,2,-1,1");
+    CHECK.sameText("17: join by ORDERED", Desks.plan(desk, 2), "0,0,-1,-1 1,2,-1,1");
     desk.index(1, 1, 0);
     desk.ask();
     desk.from(0);
@@ -204,7 +173,7 @@ public final class PlanTest {
     desk.join(1, 1, 0, 0);
     desk.select(1, 0);
     CHECK.sameFloat("16: join by HASH", desk.plan(), 3f + 3f * (1f + 20f * (1f / 20f)));
-    CHECK.sameText("17: join by HASH", plan(desk, 2), "0,0,-1,-1 1,1,-1,1");
+    CHECK.sameText("17: join by HASH", Desks.plan(desk, 2), "0,0,-1,-1 1,1,-1,1");
     desk.index(0, 0, 0);
     desk.index(1, 0, 0);
     desk.ask();
@@ -213,16 +182,16 @@ public final class PlanTest {
     desk.join(0, 0, 1, 0);
     desk.select(0, 0);
     CHECK.sameFloat("16: a join is a way for the later one alone", desk.plan(), 3f + 3f * (1f + 20f * (1f / 10f)));
-    CHECK.sameText("17: a join is a way for the later one alone", plan(desk, 2), "0,0,-1,-1 1,1,-1,0");
+    CHECK.sameText("17: a join is a way for the later one alone", Desks.plan(desk, 2), "0,0,-1,-1 1,1,-1,0");
   }
 
   private static void firstOfEqualWays() {
     QueryDesk desk = new QueryDesk();
-    fill(desk, 0, turns(2, 2));
+    Desks.fill(desk, 0, Desks.turns(2, 2));
     desk.index(0, 0, 0);
     CHECK.sameFloat("16: SCAN and HASH alike", oneSource(desk, 0, 0, 1), 2f);
-    CHECK.sameText("17: SCAN and HASH alike", plan(desk, 1), "0,0,-1,-1");
-    fill(desk, 0, turns(8, 8), turns(8, 4));
+    CHECK.sameText("17: SCAN and HASH alike", Desks.plan(desk, 1), "0,0,-1,-1");
+    Desks.fill(desk, 0, Desks.turns(8, 8), Desks.turns(8, 4));
     desk.index(0, 0, 1);
     desk.index(0, 1, 0);
     for (int first = 0; first < 2; first++) {
@@ -232,10 +201,10 @@ public final class PlanTest {
       desk.where(0, 1 - first, 0, 1);
       desk.select(0, 0);
       CHECK.sameFloat("16: two conditions alike", desk.plan(), 3f);
-      CHECK.sameText("17: two conditions alike", plan(desk, 1), first == 0 ? "0,2,0,-1" : "0,1,0,-1");
+      CHECK.sameText("17: two conditions alike", Desks.plan(desk, 1), first == 0 ? "0,2,0,-1" : "0,1,0,-1");
     }
-    fill(desk, 1, turns(1, 1));
-    fill(desk, 0, turns(8, 8), turns(8, 8));
+    Desks.fill(desk, 1, Desks.turns(1, 1));
+    Desks.fill(desk, 0, Desks.turns(8, 8), Desks.turns(8, 8));
     desk.index(0, 0, 0);
     desk.index(0, 1, 0);
     desk.from(1);
@@ -244,7 +213,7 @@ public final class PlanTest {
     desk.where(1, 1, 0, 1);
     desk.select(0, 0);
     CHECK.sameFloat("16: condition and join alike", desk.plan(), 1f + 2f);
-    CHECK.sameText("17: condition before join", plan(desk, 2), "0,0,-1,-1 1,1,0,-1");
+    CHECK.sameText("17: condition before join", Desks.plan(desk, 2), "0,0,-1,-1 1,1,0,-1");
     desk.ask();
     desk.from(1);
     desk.from(0);
@@ -252,14 +221,14 @@ public final class PlanTest {
     desk.join(0, 0, 1, 0);
     desk.select(0, 0);
     desk.plan();
-    CHECK.sameText("17: first of two joins", plan(desk, 2), "0,0,-1,-1 1,1,-1,0");
+    CHECK.sameText("17: first of two joins", Desks.plan(desk, 2), "0,0,-1,-1 1,1,-1,0");
   }
 
   private static void joinShareIsTheLaterOnes() {
     QueryDesk desk = new QueryDesk();
-    fill(desk, 0, turns(2, 1));
-    fill(desk, 1, turns(10, 5));
-    fill(desk, 2, turns(20, 20));
+    Desks.fill(desk, 0, Desks.turns(2, 1));
+    Desks.fill(desk, 1, Desks.turns(10, 5));
+    Desks.fill(desk, 2, Desks.turns(20, 20));
     desk.from(0);
     desk.from(1);
     desk.from(2);
@@ -267,7 +236,7 @@ public final class PlanTest {
     desk.select(0, 0);
     float count = 2f * 10f * (1f / 5f);
     CHECK.sameFloat("16: share of a join", desk.plan(), 2f + 2f * 10f + count * 20f);
-    CHECK.sameText("17: share of a join", plan(desk, 3), "0,0,-1,-1 1,0,-1,-1 2,0,-1,-1");
+    CHECK.sameText("17: share of a join", Desks.plan(desk, 3), "0,0,-1,-1 1,0,-1,-1 2,0,-1,-1");
   }
 
   private static void ordersOfThree() {
@@ -291,7 +260,7 @@ public final class PlanTest {
   private static String orderOf(int[] sizes, float dueCost) {
     QueryDesk desk = new QueryDesk();
     for (int table = 0; table < 3; table++) {
-      fill(desk, table, turns(sizes[table], sizes[table]));
+      Desks.fill(desk, table, Desks.turns(sizes[table], sizes[table]));
     }
     for (int table = 0; table < 3; table++) {
       desk.from(table);
@@ -303,25 +272,25 @@ public final class PlanTest {
 
   private static void ordersOfTwo() {
     QueryDesk desk = new QueryDesk();
-    fill(desk, 0, turns(5, 5));
-    fill(desk, 1, turns(4, 4));
+    Desks.fill(desk, 0, Desks.turns(5, 5));
+    Desks.fill(desk, 1, Desks.turns(4, 4));
     desk.from(0);
     desk.from(1);
     desk.select(0, 0);
     CHECK.sameFloat("16: smaller first", desk.plan(), 4f + 4f * 5f);
-    CHECK.sameText("17: smaller first", plan(desk, 2), "1,0,-1,-1 0,0,-1,-1");
+    CHECK.sameText("17: smaller first", Desks.plan(desk, 2), "1,0,-1,-1 0,0,-1,-1");
     desk.ask();
     desk.from(0);
     desk.from(0);
     desk.select(0, 0);
     CHECK.sameFloat("16: the same table", desk.plan(), 5f + 5f * 5f);
-    CHECK.sameText("17: the same table", plan(desk, 2), "0,0,-1,-1 1,0,-1,-1");
+    CHECK.sameText("17: the same table", Desks.plan(desk, 2), "0,0,-1,-1 1,0,-1,-1");
   }
 
   private static void emptyTables() {
     QueryDesk desk = new QueryDesk();
     desk.create(0, 1);
-    fill(desk, 1, turns(4, 4));
+    Desks.fill(desk, 1, Desks.turns(4, 4));
     desk.create(0, 1);
     desk.index(0, 0, 0);
     desk.index(0, 0, 1);
@@ -333,12 +302,12 @@ public final class PlanTest {
     desk.join(0, 0, 1, 0);
     desk.select(0, 0);
     CHECK.sameFloat("16: without rows", desk.plan(), 0f);
-    CHECK.sameText("17: without rows", plan(desk, 2), "1,0,-1,-1 0,0,-1,-1");
+    CHECK.sameText("17: without rows", Desks.plan(desk, 2), "1,0,-1,-1 0,0,-1,-1");
   }
 
   private static void planSeesTheRowsOfItsTime() {
     QueryDesk desk = new QueryDesk();
-    fill(desk, 0, turns(3, 3));
+    Desks.fill(desk, 0, Desks.turns(3, 3));
     desk.from(0);
     desk.select(0, 0);
     desk.where(0, 0, 0, 9);
@@ -354,7 +323,7 @@ public final class PlanTest {
 
   private static void explain() {
     QueryDesk desk = new QueryDesk();
-    fill(desk, 0, turns(3, 3));
+    Desks.fill(desk, 0, Desks.turns(3, 3));
     desk.from(0);
     desk.from(0);
     desk.select(0, 0);
@@ -368,8 +337,8 @@ public final class PlanTest {
     for (int what : wrongWhats) {
       CHECK.fails("17: what " + what, IndexOutOfBoundsException.class, () -> desk.explain(0, what));
     }
-    CHECK.sameText("17: under way", plan(desk, 2), "0,0,-1,-1 1,0,-1,-1");
+    CHECK.sameText("17: under way", Desks.plan(desk, 2), "0,0,-1,-1 1,0,-1,-1");
     desk.run(200);
-    CHECK.sameText("17: answered", plan(desk, 2), "0,0,-1,-1 1,0,-1,-1");
+    CHECK.sameText("17: answered", Desks.plan(desk, 2), "0,0,-1,-1 1,0,-1,-1");
   }
 }

@@ -29,25 +29,6 @@ public final class QuestionTest {
     return desk;
   }
 
-  private static String answers(QueryDesk desk, int outputs) {
-    desk.plan();
-    for (int i = 0; i < 100 && desk.look(0) == 1; i++) {
-      desk.run(200);
-    }
-    CHECK.same("answered", desk.look(0), 2);
-    if (desk.look(0) != 2) {
-      return "no answer";
-    }
-    StringBuilder text = new StringBuilder();
-    for (int i = 0; i < desk.look(2); i++) {
-      for (int k = 0; k < outputs; k++) {
-        text.append(k == 0 ? "" : ",").append(desk.answer(i, k));
-      }
-      text.append(' ');
-    }
-    return text.toString().trim();
-  }
-
   private static void ask() {
     QueryDesk desk = twoTables();
     desk.from(0);
@@ -63,7 +44,7 @@ public final class QuestionTest {
     CHECK.same("9: no sources", desk.where(0, 0, 0, 0), false);
     CHECK.same("9: sources begin at 0", desk.from(0), 0);
     CHECK.same("9: outputs begin at 0", desk.select(0, 1), 0);
-    CHECK.sameText("9: no condition, join, order or limit is left", answers(desk, 1), "0 1 2 0 1 2");
+    CHECK.sameText("9: no condition, join, order or limit is left", Desks.answersOfPlanned(desk, 1), "0 1 2 0 1 2");
     CHECK.same("9: rows stay", desk.look(3), 6);
     desk.ask();
     CHECK.same("9: not planned", desk.look(0), 0);
@@ -101,7 +82,7 @@ public final class QuestionTest {
       desk.from(0);
       desk.select(0, 0);
       CHECK.same("11: operator " + operator, desk.where(0, 1, operator, 2), true);
-      CHECK.sameText("11: answers of " + operator, answers(desk, 1), due[operator]);
+      CHECK.sameText("11: answers of " + operator, Desks.answersOfPlanned(desk, 1), due[operator]);
     }
     QueryDesk desk = twoTables();
     CHECK.same("11: no source yet", desk.where(0, 0, 0, 0), false);
@@ -123,7 +104,7 @@ public final class QuestionTest {
     CHECK.same("11: fifth", desk.where(0, 0, 0, 77), false);
     desk.select(0, 0);
     desk.select(1, 0);
-    CHECK.sameText("11: all together", answers(desk, 2), "2,0 4,0 5,0");
+    CHECK.sameText("11: all together", Desks.answersOfPlanned(desk, 2), "2,0 4,0 5,0");
   }
 
   private static void join() {
@@ -146,7 +127,7 @@ public final class QuestionTest {
     CHECK.same("12: fourth", desk.join(0, 0, 1, 0), false);
     desk.select(0, 0);
     desk.select(1, 0);
-    CHECK.sameText("12: both joins hold", answers(desk, 2), "0,0 1,1 2,2");
+    CHECK.sameText("12: both joins hold", Desks.answersOfPlanned(desk, 2), "0,0 1,1 2,2");
     desk.ask();
     desk.from(0);
     desk.from(0);
@@ -157,7 +138,7 @@ public final class QuestionTest {
     desk.select(1, 0);
     desk.select(2, 0);
     desk.order(1, false);
-    CHECK.sameText("12: three sources", answers(desk, 3), "0,0,0 1,1,1 2,2,2 0,3,3");
+    CHECK.sameText("12: three sources", Desks.answersOfPlanned(desk, 3), "0,0,0 1,1,1 2,2,2 0,3,3");
   }
 
   private static void select() {
@@ -175,7 +156,7 @@ public final class QuestionTest {
     CHECK.same("13: third", desk.select(0, 0), 2);
     CHECK.same("13: fourth", desk.select(0, 1), 3);
     CHECK.same("13: fifth", desk.select(0, 1), -1);
-    CHECK.sameText("13: values", answers(desk, 4), "0,0,0,0 1,1,1,1 2,2,2,2 0,3,3,0 1,4,4,1 2,5,5,2");
+    CHECK.sameText("13: values", Desks.answersOfPlanned(desk, 4), "0,0,0,0 1,1,1,1 2,2,2,2 0,3,3,0 1,4,4,1 2,5,5,2");
   }
 
   private static void order() {
@@ -189,7 +170,7 @@ public final class QuestionTest {
       CHECK.same("14: output " + wrong, desk.order(wrong, false), false);
     }
     CHECK.same("14: rising", desk.order(1, false), true);
-    CHECK.sameText("14: rising, equal ones as found", answers(desk, 2), "0,0 3,0 1,1 4,1 2,2 5,2");
+    CHECK.sameText("14: rising, equal ones as found", Desks.answersOfPlanned(desk, 2), "0,0 3,0 1,1 4,1 2,2 5,2");
     desk.ask();
     desk.from(0);
     desk.select(0, 0);
@@ -197,7 +178,7 @@ public final class QuestionTest {
     CHECK.same("14: set", desk.order(0, false), true);
     CHECK.same("14: set again", desk.order(1, true), true);
     CHECK.same("14: refused", desk.order(2, false), false);
-    CHECK.sameText("14: falling, equal ones as found", answers(desk, 2), "2,2 5,2 1,1 4,1 0,0 3,0");
+    CHECK.sameText("14: falling, equal ones as found", Desks.answersOfPlanned(desk, 2), "2,2 5,2 1,1 4,1 0,0 3,0");
     desk.create(2, 1);
     desk.insert(2, 1, 0, 0, 0);
     desk.insert(2, Integer.MIN_VALUE, 0, 0, 0);
@@ -205,7 +186,7 @@ public final class QuestionTest {
     desk.from(2);
     desk.select(0, 0);
     desk.order(0, false);
-    CHECK.sameText("14: far apart", answers(desk, 1), "-2147483648 1 2147483647");
+    CHECK.sameText("14: far apart", Desks.answersOfPlanned(desk, 1), "-2147483648 1 2147483647");
   }
 
   private static void limit() {
@@ -220,21 +201,21 @@ public final class QuestionTest {
     CHECK.same("15: refused", desk.limit(65), false);
     desk.from(0);
     desk.select(0, 0);
-    CHECK.sameText("15: four answers", answers(desk, 1), "0 1 2 3");
+    CHECK.sameText("15: four answers", Desks.answersOfPlanned(desk, 1), "0 1 2 3");
     CHECK.same("15: ends when it has them", desk.look(1), 4);
     desk.ask();
     desk.from(0);
     desk.select(0, 0);
     desk.order(0, true);
     desk.limit(2);
-    CHECK.sameText("15: cut after ordering", answers(desk, 1), "5 4");
+    CHECK.sameText("15: cut after ordering", Desks.answersOfPlanned(desk, 1), "5 4");
     CHECK.same("15: reads all", desk.look(1), 6);
     desk.ask();
     desk.from(0);
     desk.from(0);
     desk.from(1);
     desk.select(0, 0);
-    answers(desk, 1);
+    Desks.answersOfPlanned(desk, 1);
     CHECK.same("15: 64 at first", desk.look(2), 64);
   }
 

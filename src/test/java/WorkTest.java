@@ -28,14 +28,6 @@ public final class WorkTest {
     return desk;
   }
 
-  private static String answers(QueryDesk desk, int k) {
-    StringBuilder text = new StringBuilder();
-    for (int i = 0; i < desk.look(2); i++) {
-      text.append(i == 0 ? "" : " ").append(desk.answer(i, k));
-    }
-    return text.toString();
-  }
-
   private static void askFor(QueryDesk desk, int sources) {
     desk.ask();
     for (int i = 0; i < sources; i++) {
@@ -119,8 +111,8 @@ public final class WorkTest {
     CHECK.same("19: under way", desk.look(0), 1);
     CHECK.same("18: last of all", desk.run(1), 1);
     CHECK.same("19: answered", desk.look(0), 2);
-    CHECK.sameText("20: first", answers(desk, 0), "0");
-    CHECK.sameText("20: second", answers(desk, 1), "1");
+    CHECK.sameText("20: first", Desks.output(desk, 0), "0");
+    CHECK.sameText("20: second", Desks.output(desk, 1), "1");
     desk.index(0, 0, 0);
     desk.insert(0, 8, 3, 0, 0);
     desk.insert(0, 9, 4, 0, 0);
@@ -163,7 +155,7 @@ public final class WorkTest {
     askFor(desk, 1);
     desk.plan();
     desk.run(200);
-    CHECK.sameText("18: by their numbers", answers(desk, 0), "0 2 3 8");
+    CHECK.sameText("18: by their numbers", Desks.output(desk, 0), "0 2 3 8");
   }
 
   private static void hashWay() {
@@ -176,7 +168,7 @@ public final class WorkTest {
     desk.plan();
     CHECK.same("17: HASH", desk.explain(0, 1), 1);
     CHECK.same("18: the rows with the value", desk.run(200), 4);
-    CHECK.sameText("18: by their numbers", answers(desk, 0), "2 3 5");
+    CHECK.sameText("18: by their numbers", Desks.output(desk, 0), "2 3 5");
   }
 
   private static void orderedWay() {
@@ -187,20 +179,20 @@ public final class WorkTest {
     desk.plan();
     CHECK.same("17: ORDERED", desk.explain(0, 1), 2);
     CHECK.same("18: rows below", desk.run(200), 7);
-    CHECK.sameText("18: by value, then number", answers(desk, 0), "1 4 7 8 0 2 5");
+    CHECK.sameText("18: by value, then number", Desks.output(desk, 0), "1 4 7 8 0 2 5");
     askFor(desk, 1);
     desk.where(0, 0, 2, 3);
     desk.limit(4);
     desk.plan();
     CHECK.same("17: ORDERED", desk.explain(0, 1), 2);
     CHECK.same("18: rows above", desk.run(200), 4);
-    CHECK.sameText("18: rising also for >", answers(desk, 0), "0 2 5 3");
+    CHECK.sameText("18: rising also for >", Desks.output(desk, 0), "0 2 5 3");
     askFor(desk, 1);
     desk.where(0, 0, 0, 4);
     desk.plan();
     CHECK.same("17: ORDERED", desk.explain(0, 1), 2);
     CHECK.same("18: rows with =", desk.run(200), 3);
-    CHECK.sameText("18: by number", answers(desk, 0), "0 2 5");
+    CHECK.sameText("18: by number", Desks.output(desk, 0), "0 2 5");
   }
 
   private static void joinWays() {
@@ -224,7 +216,7 @@ public final class WorkTest {
       CHECK.same("17: first", desk.explain(0, 0), 1);
       CHECK.same("17: join's way", desk.explain(1, 1), kind + 1);
       CHECK.same("18: three rows and twice three", desk.run(200), 9);
-      CHECK.sameText("18: the value of the row before", answers(desk, 0), "2 6 10 1 5 9");
+      CHECK.sameText("18: the value of the row before", Desks.output(desk, 0), "2 6 10 1 5 9");
     }
   }
 
@@ -236,14 +228,14 @@ public final class WorkTest {
     desk.plan();
     CHECK.sameText("17: in turn", desk.explain(0, 0) + "" + desk.explain(1, 0) + desk.explain(2, 0), "012");
     CHECK.same("18: 4 + 16 + 16", desk.run(200), 36);
-    CHECK.sameText("20: outputs", answers(desk, 2), "0 1 2 3");
+    CHECK.sameText("20: outputs", Desks.output(desk, 2), "0 1 2 3");
     askFor(desk, 3);
     desk.join(2, 0, 0, 0);
     desk.where(1, 0, 3, 2);
     desk.plan();
     CHECK.sameText("17: joined ones first", desk.explain(0, 0) + "" + desk.explain(1, 0) + desk.explain(2, 0), "021");
     CHECK.same("18: 4 + 16 + 16", desk.run(200), 36);
-    CHECK.sameText("20: outputs", answers(desk, 1), "0 2 3 0 2 3 0 2 3 0 2 3");
+    CHECK.sameText("20: outputs", Desks.output(desk, 1), "0 2 3 0 2 3 0 2 3 0 2 3");
   }
 
   private static void limitEnds() {
@@ -256,7 +248,7 @@ public final class WorkTest {
     CHECK.same("19: one found", desk.look(2), 1);
     CHECK.same("18: the answers are enough", desk.run(3), 1);
     CHECK.same("19: answered", desk.look(0), 2);
-    CHECK.sameText("20: two answers", answers(desk, 0), "1 3");
+    CHECK.sameText("20: two answers", Desks.output(desk, 0), "1 3");
   }
 
   private static void orderEndsAtSixtyFour() {
@@ -267,8 +259,8 @@ public final class WorkTest {
     desk.plan();
     CHECK.same("18: 64 answers: 3 + 64 steps", desk.run(200), 67);
     CHECK.same("19: those that are given", desk.look(2), 5);
-    CHECK.sameText("20: ordered, then cut", answers(desk, 1), "23 23 22 22 21");
-    CHECK.sameText("20: equal ones as found", answers(desk, 0), "0 1 0 1 0");
+    CHECK.sameText("20: ordered, then cut", Desks.output(desk, 1), "23 23 22 22 21");
+    CHECK.sameText("20: equal ones as found", Desks.output(desk, 0), "0 1 0 1 0");
     askFor(desk, 2);
     desk.order(1, true);
     desk.limit(5);
