@@ -10,10 +10,19 @@ final class Check {
     this.name = name;
   }
 
-  /** The answers that follow test these words of the document, the promise's number before them. */
-  void sentence(String words) {
+  /**
+   * Runs the test of these words of the document, the promise's number before them. What it throws
+   * counts as wrong and does not keep the tests behind it from running.
+   */
+  void sentence(String words, Runnable test) {
     sentence = "\"" + words + "\": ";
     sentences++;
+    try {
+      test.run();
+    } catch (RuntimeException e) {
+      note("the test", false, e.toString(), "nothing thrown");
+    }
+    sentence = "";
   }
 
   void same(String what, long got, long due) {

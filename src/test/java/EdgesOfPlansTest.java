@@ -7,47 +7,68 @@ public final class EdgesOfPlansTest {
   private static final Check CHECK = new Check("EdgesOfPlansTest");
 
   public static void main(String[] args) {
-    planWithoutSources();
-    planWithoutOutputs();
-    planOfAPlannedQuestion();
-    planMakesNoStep();
-    shareOfEqual();
-    shareOfNotEqual();
-    shareOfLess();
-    shareOfGreater();
-    longNumberMinusLeast();
-    longGreatestMinusNumber();
-    longGreatestMinusLeast();
-    shareBelowNothing();
-    shareAboveAll();
-    shareOfAJoin();
-    shareWithoutRows();
-    divisionsInFloats();
-    productsInTheirOrder();
-    sharesOfConditionsBeforeThoseOfJoins();
-    sumsInTheirOrder();
-    scanReadsAllRows();
-    hashWayOfACondition();
-    orderedWayOfACondition();
-    waysOfJoinsWithSourcesBefore();
-    fewestRows();
-    scanBeforeEqualWays();
-    hashBeforeOrdered();
-    firstOfEqualConditions();
-    conditionBeforeEqualJoin();
-    firstOfEqualJoins();
-    leastCostOfThree();
-    firstOfEqualOrdersOfThree();
-    firstOfEqualOrdersOfTwo();
-    explainWithoutPlan();
-    explainOfNoSource();
-    explainOfNoWhat();
-    explainWithout();
+    CHECK.sentence("16: IllegalStateException: it has no sources", EdgesOfPlansTest::planWithoutSources);
+    CHECK.sentence("16: or no outputs", EdgesOfPlansTest::planWithoutOutputs);
+    CHECK.sentence("16: or was planned", EdgesOfPlansTest::planOfAPlannedQuestion);
+    CHECK.sentence("16: it is under way then, with no step made", EdgesOfPlansTest::planMakesNoStep);
+    CHECK.sentence("Terms: VALUES: how many different ones a column has; LEAST and GREATEST of them",
+        EdgesOfPlansTest::valuesOfTheRowsThatAreThere);
+    CHECK.sentence("Terms: =: 1 / v", EdgesOfPlansTest::shareOfEqual);
+    CHECK.sentence("Terms: not equal: 1 - 1 / v", EdgesOfPlansTest::shareOfNotEqual);
+    CHECK.sentence("Terms: <: (number - LEAST) / (GREATEST - LEAST + 1)", EdgesOfPlansTest::shareOfLess);
+    CHECK.sentence("Terms: >: (GREATEST - number) / (GREATEST - LEAST + 1)",
+        EdgesOfPlansTest::shareOfGreater);
+    CHECK.sentence("Terms: differences made in longs (number - LEAST)",
+        EdgesOfPlansTest::longNumberMinusLeast);
+    CHECK.sentence("Terms: differences made in longs (GREATEST - number)",
+        EdgesOfPlansTest::longGreatestMinusNumber);
+    CHECK.sentence("Terms: differences made in longs (GREATEST - LEAST + 1)",
+        EdgesOfPlansTest::longGreatestMinusLeast);
+    CHECK.sentence("Terms: what is below 0 counts as 0", EdgesOfPlansTest::shareBelowNothing);
+    CHECK.sentence("Terms: above 1 as 1", EdgesOfPlansTest::shareAboveAll);
+    CHECK.sentence("Terms: The SHARE of a join, for the source that comes later: 1 / v of its column",
+        EdgesOfPlansTest::shareOfAJoin);
+    CHECK.sentence("Terms: for the source that comes later: 1 / v of its column (for the join's way)",
+        EdgesOfPlansTest::shareOfAJoinInItsWay);
+    CHECK.sentence("Terms: (Without rows each SHARE is 0.)", EdgesOfPlansTest::shareWithoutRows);
+    CHECK.sentence("Terms: All numbers are floats, divisions of two ints are made in floats",
+        EdgesOfPlansTest::divisionsInFloats);
+    CHECK.sentence("Terms: sums and products are made in the order that is written (COUNT)",
+        EdgesOfPlansTest::productsInTheirOrder);
+    CHECK.sentence("Terms: for each condition on it, times its SHARE, then for each join",
+        EdgesOfPlansTest::sharesOfConditionsBeforeThoseOfJoins);
+    CHECK.sentence("Terms: sums and products are made in the order that is written (COST)",
+        EdgesOfPlansTest::sumsInTheirOrder);
+    CHECK.sentence("Terms: SCAN: n rows are read", EdgesOfPlansTest::scanReadsAllRows);
+    CHECK.sentence("Terms: with = and a HASH index of its column: 1 + n * SHARE rows",
+        EdgesOfPlansTest::hashWayOfACondition);
+    CHECK.sentence("Terms: with =, < or > and an ORDERED index: 2 + n * SHARE",
+        EdgesOfPlansTest::orderedWayOfACondition);
+    CHECK.sentence("Terms: for each join of it with a source before, likewise as with =",
+        EdgesOfPlansTest::waysOfJoinsWithSourcesBefore);
+    CHECK.sentence("Terms: The way with the fewest rows R is taken", EdgesOfPlansTest::fewestRows);
+    CHECK.sentence("Terms: of several the first (SCAN)", EdgesOfPlansTest::scanBeforeEqualWays);
+    CHECK.sentence("Terms: WAYS of reading it are, in this order", EdgesOfPlansTest::hashBeforeOrdered);
+    CHECK.sentence("Terms: of several the first (conditions, in their order)",
+        EdgesOfPlansTest::firstOfEqualConditions);
+    CHECK.sentence("Terms: of several the first (conditions, then joins)",
+        EdgesOfPlansTest::conditionBeforeEqualJoin);
+    CHECK.sentence("Terms: of several the first (joins, in their order)",
+        EdgesOfPlansTest::firstOfEqualJoins);
+    CHECK.sentence("Terms: The PLAN is the order of the sources with the least COST",
+        EdgesOfPlansTest::leastCostOfThree);
+    CHECK.sentence("Terms: of several the first of these: 0 1 2, 0 2 1, 1 0 2, 1 2 0, 2 0 1, 2 1 0",
+        EdgesOfPlansTest::firstOfEqualOrdersOfThree);
+    CHECK.sentence("Terms: (of two: 0 1, 1 0)", EdgesOfPlansTest::firstOfEqualOrdersOfTwo);
+    CHECK.sentence("17: IndexOutOfBoundsException: there is no plan", EdgesOfPlansTest::explainWithoutPlan);
+    CHECK.sentence("17: or no such source", EdgesOfPlansTest::explainOfNoSource);
+    CHECK.sentence("17: or what", EdgesOfPlansTest::explainOfNoWhat);
+    CHECK.sentence("17: the number of the condition (2) or join (3) of the way, -1 without",
+        EdgesOfPlansTest::explainWithout);
     CHECK.end();
   }
 
   private static void planWithoutSources() {
-    CHECK.sentence("16: IllegalStateException: it has no sources");
     QueryDesk desk = new QueryDesk();
     CHECK.fails("a new object", STATE, desk::plan);
     desk.create(0, 1);
@@ -60,7 +81,6 @@ public final class EdgesOfPlansTest {
   }
 
   private static void planWithoutOutputs() {
-    CHECK.sentence("16: or no outputs");
     QueryDesk desk = Desks.of(new int[] {1, 2});
     for (int sources = 1; sources <= 3; sources++) {
       desk.from(0);
@@ -74,7 +94,6 @@ public final class EdgesOfPlansTest {
   }
 
   private static void planOfAPlannedQuestion() {
-    CHECK.sentence("16: or was planned");
     for (int stage = 1; stage <= 3; stage++) {
       QueryDesk desk = Desks.of(new int[] {1, 2, 3});
       Desks.ask(desk, 0);
@@ -90,7 +109,6 @@ public final class EdgesOfPlansTest {
   }
 
   private static void planMakesNoStep() {
-    CHECK.sentence("16: it is under way then, with no step made");
     QueryDesk desk = Desks.of(new int[] {1, 2, 3});
     desk.create(1, 1);
     int[] tables = {0, 1};
@@ -109,6 +127,10 @@ public final class EdgesOfPlansTest {
   private static float costWith(int operator, int number, int... values) {
     QueryDesk desk = Desks.of(values);
     Desks.fill(desk, 1, Desks.turns(24, 24));
+    return costOf(desk, operator, number);
+  }
+
+  private static float costOf(QueryDesk desk, int operator, int number) {
     Desks.ask(desk, 0, 1);
     desk.where(0, 0, operator, number);
     float cost = desk.plan();
@@ -120,8 +142,22 @@ public final class EdgesOfPlansTest {
     return rows + rows * share * 24f;
   }
 
+  private static void valuesOfTheRowsThatAreThere() {
+    QueryDesk desk = Desks.of(new int[] {-90, 3, 3, 10, 90});
+    Desks.fill(desk, 1, Desks.turns(24, 24));
+    desk.delete(0, 0);
+    desk.delete(0, 4);
+    CHECK.sameFloat("LEAST without those taken out", costOf(desk, 1, 5), dueWith(3f, 2f / 8f));
+    CHECK.sameFloat("GREATEST without those taken out", costOf(desk, 2, 5), dueWith(3f, 5f / 8f));
+    CHECK.sameFloat("VALUES without those taken out", costOf(desk, 0, 5), dueWith(3f, 1f / 2f));
+    desk.update(0, 1, 0, 4);
+    desk.update(0, 3, 0, 6);
+    CHECK.sameFloat("LEAST of those changed", costOf(desk, 1, 5), dueWith(3f, 2f / 4f));
+    CHECK.sameFloat("GREATEST of those changed", costOf(desk, 2, 5), dueWith(3f, 1f / 4f));
+    CHECK.sameFloat("VALUES of those changed", costOf(desk, 0, 5), dueWith(3f, 1f / 3f));
+  }
+
   private static void shareOfEqual() {
-    CHECK.sentence("Terms: =: 1 / v");
     CHECK.sameFloat("one row", costWith(0, 5, 5), dueWith(1f, 1f));
     CHECK.sameFloat("one value", costWith(0, 5, 5, 5, 5), dueWith(3f, 1f));
     CHECK.sameFloat("two values, far apart", costWith(0, 5, 5, 9, 5, 5), dueWith(4f, 0.5f));
@@ -131,7 +167,6 @@ public final class EdgesOfPlansTest {
   }
 
   private static void shareOfNotEqual() {
-    CHECK.sentence("Terms: not equal: 1 - 1 / v");
     CHECK.sameFloat("one row", costWith(3, 5, 5), dueWith(1f, 0f));
     CHECK.sameFloat("one value", costWith(3, 5, 5, 5, 5), dueWith(3f, 0f));
     CHECK.sameFloat("one value, another number", costWith(3, 6, 5, 5, 5), dueWith(3f, 0f));
@@ -140,7 +175,6 @@ public final class EdgesOfPlansTest {
   }
 
   private static void shareOfLess() {
-    CHECK.sentence("Terms: <: (number - LEAST) / (GREATEST - LEAST + 1)");
     CHECK.sameFloat("inside", costWith(1, 6, 3, 10, 4), dueWith(3f, 3f / 8f));
     CHECK.sameFloat("one above LEAST", costWith(1, 4, 3, 10, 4), dueWith(3f, 1f / 8f));
     CHECK.sameFloat("LEAST", costWith(1, 3, 3, 10, 4), dueWith(3f, 0f));
@@ -153,7 +187,6 @@ public final class EdgesOfPlansTest {
   }
 
   private static void shareOfGreater() {
-    CHECK.sentence("Terms: >: (GREATEST - number) / (GREATEST - LEAST + 1)");
     CHECK.sameFloat("inside", costWith(2, 5, 3, 10, 4), dueWith(3f, 5f / 8f));
     CHECK.sameFloat("one below GREATEST", costWith(2, 9, 3, 10, 4), dueWith(3f, 1f / 8f));
     CHECK.sameFloat("GREATEST", costWith(2, 10, 3, 10, 4), dueWith(3f, 0f));
@@ -167,7 +200,6 @@ public final class EdgesOfPlansTest {
   }
 
   private static void longNumberMinusLeast() {
-    CHECK.sentence("Terms: differences made in longs (number - LEAST)");
     CHECK.sameFloat("wraps to the least int", costWith(1, 0, LEAST, GREATEST), dueWith(2f, 0.5f));
     CHECK.sameFloat("wraps to -1", costWith(1, GREATEST, LEAST, GREATEST), dueWith(2f, 1f));
     CHECK.sameFloat("wraps to below 0", costWith(1, 1 << 30, LEAST, GREATEST), dueWith(2f, 0.75f));
@@ -176,7 +208,6 @@ public final class EdgesOfPlansTest {
   }
 
   private static void longGreatestMinusNumber() {
-    CHECK.sentence("Terms: differences made in longs (GREATEST - number)");
     CHECK.sameFloat("wraps to the least int", costWith(2, -1, LEAST, GREATEST), dueWith(2f, 0.5f));
     CHECK.sameFloat("wraps to -1", costWith(2, LEAST, LEAST, GREATEST), dueWith(2f, 1f));
     CHECK.sameFloat("wraps to below 0", costWith(2, -(1 << 30) - 1, LEAST, GREATEST), dueWith(2f, 0.75f));
@@ -185,7 +216,6 @@ public final class EdgesOfPlansTest {
   }
 
   private static void longGreatestMinusLeast() {
-    CHECK.sentence("Terms: differences made in longs (GREATEST - LEAST + 1)");
     CHECK.sameFloat("wraps to 0, <", costWith(1, LEAST + (1 << 28), LEAST, GREATEST), dueWith(2f, 1f / 16f));
     CHECK.sameFloat("wraps to 0, >", costWith(2, GREATEST - (1 << 28), LEAST, GREATEST), dueWith(2f, 1f / 16f));
     CHECK.sameFloat("+ 1 wraps, <", costWith(1, 1 << 29, 0, GREATEST), dueWith(2f, 0.25f));
@@ -194,7 +224,6 @@ public final class EdgesOfPlansTest {
   }
 
   private static void shareBelowNothing() {
-    CHECK.sentence("Terms: what is below 0 counts as 0");
     int[] below = {2, 0, -100, LEAST};
     for (int number : below) {
       CHECK.sameFloat("< " + number, costWith(1, number, 3, 10), 2f);
@@ -211,7 +240,6 @@ public final class EdgesOfPlansTest {
   }
 
   private static void shareAboveAll() {
-    CHECK.sentence("Terms: above 1 as 1");
     int[] above = {11, 12, 20, GREATEST};
     for (int number : above) {
       CHECK.sameFloat("< " + number, costWith(1, number, 3, 10), dueWith(2f, 1f));
@@ -223,7 +251,6 @@ public final class EdgesOfPlansTest {
   }
 
   private static void shareOfAJoin() {
-    CHECK.sentence("Terms: The SHARE of a join, for the source that comes later: 1 / v of its column");
     for (int turned = 0; turned < 2; turned++) {
       QueryDesk desk = Desks.of(new int[] {7, 8});
       Desks.fill(desk, 1, Desks.turns(6, 6), Desks.turns(6, 3));
@@ -243,8 +270,19 @@ public final class EdgesOfPlansTest {
     }
   }
 
+  private static void shareOfAJoinInItsWay() {
+    QueryDesk desk = Desks.of(Desks.turns(3, 3));
+    Desks.fill(desk, 1, Desks.turns(12, 2));
+    desk.index(1, 0, 0);
+    Desks.ask(desk, 0, 1);
+    desk.join(0, 0, 1, 0);
+    CHECK.sameFloat("fewer values in the later source", desk.plan(), 3f + 3f * (1f + 12f * (1f / 2f)));
+    Desks.ask(desk, 1, 0);
+    desk.join(0, 0, 1, 0);
+    CHECK.sameFloat("turned round", desk.plan(), 3f + 3f * (1f + 12f * (1f / 2f)));
+  }
+
   private static void shareWithoutRows() {
-    CHECK.sentence("Terms: (Without rows each SHARE is 0.)");
     for (int operator = 0; operator < 4; operator++) {
       QueryDesk desk = Desks.of(Desks.turns(4, 4));
       desk.create(1, 1);
@@ -269,7 +307,6 @@ public final class EdgesOfPlansTest {
   }
 
   private static void divisionsInFloats() {
-    CHECK.sentence("Terms: All numbers are floats, divisions of two ints are made in floats");
     CHECK.sameFloat("1 - 1 / 3", costWith(3, 0, 1, 2, 3), 3f + 3f * (1f - 1f / 3f) * 24f);
     CHECK.sameFloat("ints that a float cannot hold", costWith(1, 16777217, 0, 16777222),
         dueWith(2f, 16777216f / 16777224f));
@@ -285,7 +322,6 @@ public final class EdgesOfPlansTest {
   }
 
   private static void productsInTheirOrder() {
-    CHECK.sentence("Terms: sums and products are made in the order that is written (COUNT)");
     QueryDesk desk = Desks.of(Desks.turns(7, 5), Desks.turns(7, 3));
     Desks.fill(desk, 1, Desks.turns(20, 20));
     Desks.ask(desk, 0, 1);
@@ -299,7 +335,6 @@ public final class EdgesOfPlansTest {
   }
 
   private static void sharesOfConditionsBeforeThoseOfJoins() {
-    CHECK.sentence("Terms: for each condition on it, times its SHARE, then for each join");
     QueryDesk desk = Desks.of(new int[] {1});
     Desks.fill(desk, 1, Desks.turns(6, 3), Desks.turns(6, 5));
     Desks.fill(desk, 2, Desks.turns(20, 20));
@@ -315,7 +350,6 @@ public final class EdgesOfPlansTest {
   }
 
   private static void sumsInTheirOrder() {
-    CHECK.sentence("Terms: sums and products are made in the order that is written (COST)");
     QueryDesk desk = Desks.of(Desks.turns(4, 3));
     Desks.fill(desk, 1, Desks.turns(4, 3));
     Desks.fill(desk, 2, Desks.turns(24, 24));
@@ -329,7 +363,6 @@ public final class EdgesOfPlansTest {
   }
 
   private static void scanReadsAllRows() {
-    CHECK.sentence("Terms: SCAN: n rows are read");
     for (int n = 0; n <= 24; n++) {
       QueryDesk desk = new QueryDesk();
       Desks.fill(desk, 1, Desks.turns(n, 5));
@@ -348,7 +381,6 @@ public final class EdgesOfPlansTest {
   }
 
   private static void hashWayOfACondition() {
-    CHECK.sentence("Terms: with = and a HASH index of its column: 1 + n * SHARE rows");
     QueryDesk desk = Desks.of(Desks.turns(12, 4), Desks.turns(12, 12));
     desk.index(0, 1, 0);
     CHECK.sameText("= with an index of another column", planOf(desk, 0, 1), "12.0: 0,0,-1,-1");
@@ -360,7 +392,6 @@ public final class EdgesOfPlansTest {
   }
 
   private static void orderedWayOfACondition() {
-    CHECK.sentence("Terms: with =, < or > and an ORDERED index: 2 + n * SHARE");
     QueryDesk desk = Desks.of(Desks.turns(12, 4), Desks.turns(12, 12));
     desk.index(0, 1, 1);
     CHECK.sameText("= with an index of another column", planOf(desk, 0, 1), "12.0: 0,0,-1,-1");
@@ -373,7 +404,6 @@ public final class EdgesOfPlansTest {
   }
 
   private static void waysOfJoinsWithSourcesBefore() {
-    CHECK.sentence("Terms: for each join of it with a source before, likewise as with =");
     for (int kind = 0; kind < 2; kind++) {
       QueryDesk desk = Desks.of(Desks.turns(3, 3));
       Desks.fill(desk, 1, Desks.turns(12, 4));
@@ -394,7 +424,6 @@ public final class EdgesOfPlansTest {
   }
 
   private static void fewestRows() {
-    CHECK.sentence("Terms: The way with the fewest rows R is taken");
     QueryDesk desk = Desks.of(Desks.turns(24, 2), Desks.turns(24, 12), Desks.turns(24, 4), Desks.turns(24, 24));
     for (int column = 0; column < 4; column++) {
       desk.index(0, column, 0);
@@ -415,7 +444,6 @@ public final class EdgesOfPlansTest {
   }
 
   private static void scanBeforeEqualWays() {
-    CHECK.sentence("Terms: of several the first (SCAN)");
     QueryDesk desk = Desks.of(Desks.turns(2, 2));
     desk.index(0, 0, 0);
     CHECK.sameText("HASH, 1 + 1 of 2 rows", planOf(desk, 0, 1), "2.0: 0,0,-1,-1");
@@ -427,7 +455,6 @@ public final class EdgesOfPlansTest {
   }
 
   private static void hashBeforeOrdered() {
-    CHECK.sentence("Terms: WAYS of reading it are, in this order");
     QueryDesk desk = Desks.of(Desks.turns(9, 9), Desks.turns(9, 3));
     desk.index(0, 0, 1);
     desk.index(0, 0, 0);
@@ -440,7 +467,6 @@ public final class EdgesOfPlansTest {
   }
 
   private static void firstOfEqualConditions() {
-    CHECK.sentence("Terms: of several the first (conditions, in their order)");
     QueryDesk desk = Desks.of(Desks.turns(8, 8), Desks.turns(8, 4));
     desk.index(0, 0, 1);
     desk.index(0, 1, 0);
@@ -454,7 +480,6 @@ public final class EdgesOfPlansTest {
   }
 
   private static void conditionBeforeEqualJoin() {
-    CHECK.sentence("Terms: of several the first (conditions, then joins)");
     QueryDesk desk = Desks.of(Desks.turns(8, 8), Desks.turns(8, 8));
     Desks.fill(desk, 1, new int[] {1});
     desk.index(0, 0, 0);
@@ -468,7 +493,6 @@ public final class EdgesOfPlansTest {
   }
 
   private static void firstOfEqualJoins() {
-    CHECK.sentence("Terms: of several the first (joins, in their order)");
     QueryDesk desk = Desks.of(Desks.turns(8, 8), Desks.turns(8, 4));
     Desks.fill(desk, 1, new int[] {1});
     desk.index(0, 0, 1);
@@ -499,7 +523,6 @@ public final class EdgesOfPlansTest {
   }
 
   private static void leastCostOfThree() {
-    CHECK.sentence("Terms: The PLAN is the order of the sources with the least COST");
     CHECK.sameText("2 3 4", orderOf(2, 3, 4), "32.0: 0 1 2");
     CHECK.sameText("2 4 3", orderOf(2, 4, 3), "32.0: 0 2 1");
     CHECK.sameText("3 2 4", orderOf(3, 2, 4), "32.0: 1 0 2");
@@ -510,7 +533,6 @@ public final class EdgesOfPlansTest {
   }
 
   private static void firstOfEqualOrdersOfThree() {
-    CHECK.sentence("Terms: of several the first of these: 0 1 2, 0 2 1, 1 0 2, 1 2 0, 2 0 1, 2 1 0");
     CHECK.sameText("all alike", orderOf(2, 2, 2), "14.0: 0 1 2");
     CHECK.sameText("2 2 3", orderOf(2, 2, 3), "18.0: 0 1 2");
     CHECK.sameText("2 3 2", orderOf(2, 3, 2), "18.0: 0 2 1");
@@ -525,7 +547,6 @@ public final class EdgesOfPlansTest {
   }
 
   private static void firstOfEqualOrdersOfTwo() {
-    CHECK.sentence("Terms: (of two: 0 1, 1 0)");
     CHECK.sameText("alike", orderOf(3, 3), "12.0: 0 1");
     CHECK.sameText("the second smaller", orderOf(4, 3), "15.0: 1 0");
     CHECK.sameText("the first smaller", orderOf(3, 4), "15.0: 0 1");
@@ -534,7 +555,6 @@ public final class EdgesOfPlansTest {
   }
 
   private static void explainWithoutPlan() {
-    CHECK.sentence("17: IndexOutOfBoundsException: there is no plan");
     QueryDesk desk = new QueryDesk();
     checkNoPlan(desk);
     Desks.fill(desk, 0, Desks.turns(3, 3));
@@ -561,9 +581,8 @@ public final class EdgesOfPlansTest {
   }
 
   private static void explainOfNoSource() {
-    CHECK.sentence("17: or no such source");
     QueryDesk desk = Desks.of(Desks.turns(3, 3));
-    for (int sources = 1; sources <= 3; sources++) {
+    for (int sources = 3; sources >= 1; sources--) {
       Desks.ask(desk, new int[sources]);
       desk.plan();
       for (int what = 0; what < 4; what++) {
@@ -578,7 +597,6 @@ public final class EdgesOfPlansTest {
   }
 
   private static void explainOfNoWhat() {
-    CHECK.sentence("17: or what");
     QueryDesk desk = Desks.of(Desks.turns(3, 3));
     Desks.ask(desk, 0, 0, 0);
     desk.plan();
@@ -593,7 +611,6 @@ public final class EdgesOfPlansTest {
   }
 
   private static void explainWithout() {
-    CHECK.sentence("17: the number of the condition (2) or join (3) of the way, -1 without");
     QueryDesk desk = Desks.of(Desks.turns(9, 9));
     Desks.fill(desk, 1, new int[] {1, 2});
     desk.index(0, 0, 0);

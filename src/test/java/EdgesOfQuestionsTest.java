@@ -6,41 +6,50 @@ public final class EdgesOfQuestionsTest {
   private static final Check CHECK = new Check("EdgesOfQuestionsTest");
 
   public static void main(String[] args) {
-    askLeavesNoSource();
-    askLeavesNoCondition();
-    askLeavesNoJoin();
-    askLeavesNoOutput();
-    askLeavesNoOrder();
-    askLeavesNoLimit();
-    askBeginsAtEveryStage();
-    fromAddsAndTellsTheNumber();
-    fromNoTable();
-    fromAFourthTime();
-    fromOfAPlannedQuestion();
-    whereOfNoSource();
-    whereOfNoColumn();
-    whereOfNoOperator();
-    whereWithAnyNumber();
-    whereAFifthTime();
-    whereOfAPlannedQuestion();
-    joinOfNoSource();
-    joinOfNoColumn();
-    joinWithItself();
-    joinOfOneTableTwice();
-    joinAFourthTime();
-    joinOfAPlannedQuestion();
-    selectAddsAndTellsTheNumber();
-    selectOfNoSource();
-    selectOfNoColumn();
-    selectAFifthTime();
-    selectOfAPlannedQuestion();
-    orderOfNoOutput();
-    orderIsSetAgain();
-    orderOfAPlannedQuestion();
-    limitOutside();
-    limitInside();
-    limitAtFirst();
-    limitOfAPlannedQuestion();
+    CHECK.sentence("9: Begins a new question, with nothing in it (sources)",
+        EdgesOfQuestionsTest::askLeavesNoSource);
+    CHECK.sentence("9: Begins a new question, with nothing in it (conditions)",
+        EdgesOfQuestionsTest::askLeavesNoCondition);
+    CHECK.sentence("9: Begins a new question, with nothing in it (joins)",
+        EdgesOfQuestionsTest::askLeavesNoJoin);
+    CHECK.sentence("9: Begins a new question, with nothing in it (outputs)",
+        EdgesOfQuestionsTest::askLeavesNoOutput);
+    CHECK.sentence("9: Begins a new question, with nothing in it (order)",
+        EdgesOfQuestionsTest::askLeavesNoOrder);
+    CHECK.sentence("9: Begins a new question, with nothing in it (limit)",
+        EdgesOfQuestionsTest::askLeavesNoLimit);
+    CHECK.sentence("9: Begins a new question", EdgesOfQuestionsTest::askBeginsAtEveryStage);
+    CHECK.sentence("Terms: up to 3 SOURCES 0, 1, 2, each a table (also the same)",
+        EdgesOfQuestionsTest::fromAddsAndTellsTheNumber);
+    CHECK.sentence("10: -1 (refused) if there is no such table", EdgesOfQuestionsTest::fromNoTable);
+    CHECK.sentence("10: three are there", EdgesOfQuestionsTest::fromAFourthTime);
+    CHECK.sentence("10: or the question was planned", EdgesOfQuestionsTest::fromOfAPlannedQuestion);
+    CHECK.sentence("11: false (refused) if there is no such source", EdgesOfQuestionsTest::whereOfNoSource);
+    CHECK.sentence("11: no such column", EdgesOfQuestionsTest::whereOfNoColumn);
+    CHECK.sentence("11: no such operator", EdgesOfQuestionsTest::whereOfNoOperator);
+    CHECK.sentence("Terms: an operator (0 =, 1 <, 2 >, 3 not equal) and a number",
+        EdgesOfQuestionsTest::whereWithAnyNumber);
+    CHECK.sentence("11: four are there", EdgesOfQuestionsTest::whereAFifthTime);
+    CHECK.sentence("11: or the question was planned", EdgesOfQuestionsTest::whereOfAPlannedQuestion);
+    CHECK.sentence("12: false (refused) if there is no such source", EdgesOfQuestionsTest::joinOfNoSource);
+    CHECK.sentence("12: no such column", EdgesOfQuestionsTest::joinOfNoColumn);
+    CHECK.sentence("12: both sources are the same", EdgesOfQuestionsTest::joinWithItself);
+    CHECK.sentence("Terms: up to 3 JOINS: the columns of two different sources are equal",
+        EdgesOfQuestionsTest::joinOfOneTableTwice);
+    CHECK.sentence("12: three are there", EdgesOfQuestionsTest::joinAFourthTime);
+    CHECK.sentence("12: or the question was planned", EdgesOfQuestionsTest::joinOfAPlannedQuestion);
+    CHECK.sentence("13: Adds an output: its number", EdgesOfQuestionsTest::selectAddsAndTellsTheNumber);
+    CHECK.sentence("13: -1 (refused) if there is no such source", EdgesOfQuestionsTest::selectOfNoSource);
+    CHECK.sentence("13: no such column", EdgesOfQuestionsTest::selectOfNoColumn);
+    CHECK.sentence("13: four are there", EdgesOfQuestionsTest::selectAFifthTime);
+    CHECK.sentence("13: or the question was planned", EdgesOfQuestionsTest::selectOfAPlannedQuestion);
+    CHECK.sentence("14: false (refused) if there is no such output", EdgesOfQuestionsTest::orderOfNoOutput);
+    CHECK.sentence("14: Sets the ORDER", EdgesOfQuestionsTest::orderIsSetAgain);
+    CHECK.sentence("14: or the question was planned", EdgesOfQuestionsTest::orderOfAPlannedQuestion);
+    CHECK.sentence("15: false (refused) if it is not 1 .. 64", EdgesOfQuestionsTest::limitOutside);
+    CHECK.sentence("15: Sets the LIMIT", EdgesOfQuestionsTest::limitInside);
+    CHECK.sentence("Terms: a LIMIT (1 .. 64, 64 at first)", EdgesOfQuestionsTest::limitAtFirst);
+    CHECK.sentence("15: or the question was planned", EdgesOfQuestionsTest::limitOfAPlannedQuestion);
     CHECK.end();
   }
 
@@ -53,8 +62,16 @@ public final class EdgesOfQuestionsTest {
     return desk;
   }
 
+  /** Three sources and four outputs were in the question before; none of them counts any more. */
+  private static QueryDesk askedAnew() {
+    QueryDesk desk = threeTables();
+    Desks.ask(desk, 0, 0, 0);
+    desk.select(0, 0);
+    desk.ask();
+    return desk;
+  }
+
   private static void askLeavesNoSource() {
-    CHECK.sentence("9: Begins a new question, with nothing in it (sources)");
     QueryDesk desk = threeTables();
     desk.from(2);
     desk.from(1);
@@ -69,7 +86,6 @@ public final class EdgesOfQuestionsTest {
   }
 
   private static void askLeavesNoCondition() {
-    CHECK.sentence("9: Begins a new question, with nothing in it (conditions)");
     QueryDesk desk = threeTables();
     desk.from(0);
     for (int i = 0; i < 4; i++) {
@@ -84,7 +100,6 @@ public final class EdgesOfQuestionsTest {
   }
 
   private static void askLeavesNoJoin() {
-    CHECK.sentence("9: Begins a new question, with nothing in it (joins)");
     QueryDesk desk = threeTables();
     Desks.ask(desk, 0, 1);
     for (int i = 0; i < 3; i++) {
@@ -99,7 +114,6 @@ public final class EdgesOfQuestionsTest {
   }
 
   private static void askLeavesNoOutput() {
-    CHECK.sentence("9: Begins a new question, with nothing in it (outputs)");
     QueryDesk desk = threeTables();
     desk.from(0);
     for (int i = 0; i < 4; i++) {
@@ -115,7 +129,6 @@ public final class EdgesOfQuestionsTest {
   }
 
   private static void askLeavesNoOrder() {
-    CHECK.sentence("9: Begins a new question, with nothing in it (order)");
     QueryDesk desk = Desks.of(new int[] {2, 3, 1});
     for (int i = 0; i < 2; i++) {
       Desks.ask(desk, 0);
@@ -126,7 +139,6 @@ public final class EdgesOfQuestionsTest {
   }
 
   private static void askLeavesNoLimit() {
-    CHECK.sentence("9: Begins a new question, with nothing in it (limit)");
     QueryDesk desk = threeTables();
     Desks.ask(desk, 0);
     desk.limit(1);
@@ -135,7 +147,6 @@ public final class EdgesOfQuestionsTest {
   }
 
   private static void askBeginsAtEveryStage() {
-    CHECK.sentence("9: Begins a new question");
     for (int stage = 0; stage <= 3; stage++) {
       QueryDesk desk = threeTables();
       bringToStage(desk, stage);
@@ -168,7 +179,6 @@ public final class EdgesOfQuestionsTest {
   }
 
   private static void fromAddsAndTellsTheNumber() {
-    CHECK.sentence("Terms: up to 3 SOURCES 0, 1, 2, each a table (also the same)");
     for (int table = 0; table < 3; table++) {
       QueryDesk desk = threeTables();
       for (int number = 0; number < 3; number++) {
@@ -188,7 +198,6 @@ public final class EdgesOfQuestionsTest {
   }
 
   private static void fromNoTable() {
-    CHECK.sentence("10: -1 (refused) if there is no such table");
     QueryDesk desk = Desks.of(new int[] {1});
     for (int table : OUTSIDE_TABLES) {
       CHECK.same("table " + table, desk.from(table), -1);
@@ -201,7 +210,6 @@ public final class EdgesOfQuestionsTest {
   }
 
   private static void fromAFourthTime() {
-    CHECK.sentence("10: three are there");
     QueryDesk desk = threeTables();
     for (int number = 0; number < 3; number++) {
       CHECK.same("source", desk.from(0), number);
@@ -217,7 +225,6 @@ public final class EdgesOfQuestionsTest {
   }
 
   private static void fromOfAPlannedQuestion() {
-    CHECK.sentence("10: or the question was planned");
     for (int stage = 1; stage <= 3; stage++) {
       QueryDesk desk = threeTables();
       bringToStage(desk, stage);
@@ -228,8 +235,7 @@ public final class EdgesOfQuestionsTest {
   }
 
   private static void whereOfNoSource() {
-    CHECK.sentence("11: false (refused) if there is no such source");
-    QueryDesk desk = threeTables();
+    QueryDesk desk = askedAnew();
     for (int sources = 0; sources <= 3; sources++) {
       int[] outside = {-1, sources, 3, LEAST, GREATEST};
       for (int source : outside) {
@@ -241,7 +247,6 @@ public final class EdgesOfQuestionsTest {
   }
 
   private static void whereOfNoColumn() {
-    CHECK.sentence("11: no such column");
     QueryDesk desk = threeTables();
     desk.from(2);
     desk.from(0);
@@ -257,7 +262,6 @@ public final class EdgesOfQuestionsTest {
   }
 
   private static void whereOfNoOperator() {
-    CHECK.sentence("11: no such operator");
     QueryDesk desk = threeTables();
     desk.from(0);
     int[] outside = {-1, 4, 5, LEAST, GREATEST};
@@ -270,7 +274,6 @@ public final class EdgesOfQuestionsTest {
   }
 
   private static void whereWithAnyNumber() {
-    CHECK.sentence("Terms: an operator (0 =, 1 <, 2 >, 3 not equal) and a number");
     int[] numbers = {LEAST, -1, 0, GREATEST};
     String[][] due = {
       {"-2147483648", "", "-1 0 2147483647", "-1 0 2147483647"},
@@ -289,7 +292,6 @@ public final class EdgesOfQuestionsTest {
   }
 
   private static void whereAFifthTime() {
-    CHECK.sentence("11: four are there");
     QueryDesk desk = threeTables();
     Desks.ask(desk, 0, 1);
     CHECK.same("first", desk.where(0, 0, 2, 0), true);
@@ -303,7 +305,6 @@ public final class EdgesOfQuestionsTest {
   }
 
   private static void whereOfAPlannedQuestion() {
-    CHECK.sentence("11: or the question was planned");
     for (int stage = 1; stage <= 3; stage++) {
       QueryDesk desk = threeTables();
       bringToStage(desk, stage);
@@ -317,8 +318,7 @@ public final class EdgesOfQuestionsTest {
   }
 
   private static void joinOfNoSource() {
-    CHECK.sentence("12: false (refused) if there is no such source");
-    QueryDesk desk = threeTables();
+    QueryDesk desk = askedAnew();
     for (int sources = 0; sources <= 3; sources++) {
       int[] outside = {-1, sources, 3, LEAST, GREATEST};
       for (int source : outside) {
@@ -332,7 +332,6 @@ public final class EdgesOfQuestionsTest {
   }
 
   private static void joinOfNoColumn() {
-    CHECK.sentence("12: no such column");
     QueryDesk desk = threeTables();
     desk.from(2);
     desk.from(0);
@@ -350,7 +349,6 @@ public final class EdgesOfQuestionsTest {
   }
 
   private static void joinWithItself() {
-    CHECK.sentence("12: both sources are the same");
     QueryDesk desk = threeTables();
     desk.from(2);
     desk.from(2);
@@ -365,7 +363,6 @@ public final class EdgesOfQuestionsTest {
   }
 
   private static void joinOfOneTableTwice() {
-    CHECK.sentence("Terms: up to 3 JOINS: the columns of two different sources are equal");
     QueryDesk desk = Desks.of(new int[] {1, 2, 3}, new int[] {2, 3, 9});
     Desks.ask(desk, 0, 0);
     CHECK.same("two sources of one table", desk.join(0, 1, 1, 0), true);
@@ -377,7 +374,6 @@ public final class EdgesOfQuestionsTest {
   }
 
   private static void joinAFourthTime() {
-    CHECK.sentence("12: three are there");
     QueryDesk desk = threeTables();
     Desks.ask(desk, 0, 1, 2);
     CHECK.same("first", desk.join(0, 0, 1, 0), true);
@@ -390,7 +386,6 @@ public final class EdgesOfQuestionsTest {
   }
 
   private static void joinOfAPlannedQuestion() {
-    CHECK.sentence("12: or the question was planned");
     for (int stage = 1; stage <= 3; stage++) {
       QueryDesk desk = threeTables();
       bringToStage(desk, stage);
@@ -404,7 +399,6 @@ public final class EdgesOfQuestionsTest {
   }
 
   private static void selectAddsAndTellsTheNumber() {
-    CHECK.sentence("13: Adds an output: its number");
     QueryDesk desk = Desks.of(new int[] {1, 2}, new int[] {3, 4});
     desk.from(0);
     CHECK.same("first", desk.select(0, 1), 0);
@@ -415,8 +409,7 @@ public final class EdgesOfQuestionsTest {
   }
 
   private static void selectOfNoSource() {
-    CHECK.sentence("13: -1 (refused) if there is no such source");
-    QueryDesk desk = threeTables();
+    QueryDesk desk = askedAnew();
     for (int sources = 0; sources <= 3; sources++) {
       int[] outside = {-1, sources, 3, LEAST, GREATEST};
       for (int source : outside) {
@@ -428,7 +421,6 @@ public final class EdgesOfQuestionsTest {
   }
 
   private static void selectOfNoColumn() {
-    CHECK.sentence("13: no such column");
     QueryDesk desk = threeTables();
     desk.from(2);
     desk.from(0);
@@ -444,7 +436,6 @@ public final class EdgesOfQuestionsTest {
   }
 
   private static void selectAFifthTime() {
-    CHECK.sentence("13: four are there");
     QueryDesk desk = threeTables();
     desk.from(2);
     for (int i = 0; i < 4; i++) {
@@ -457,7 +448,6 @@ public final class EdgesOfQuestionsTest {
   }
 
   private static void selectOfAPlannedQuestion() {
-    CHECK.sentence("13: or the question was planned");
     for (int stage = 1; stage <= 3; stage++) {
       QueryDesk desk = threeTables();
       bringToStage(desk, stage);
@@ -471,8 +461,8 @@ public final class EdgesOfQuestionsTest {
   }
 
   private static void orderOfNoOutput() {
-    CHECK.sentence("14: false (refused) if there is no such output");
-    QueryDesk desk = Desks.of(new int[] {2, 3, 1});
+    QueryDesk desk = askedAnew();
+    Desks.fill(desk, 0, new int[] {2, 3, 1});
     desk.from(0);
     for (int outputs = 0; outputs <= 4; outputs++) {
       int[] outside = {-1, outputs, 4, 5, LEAST, GREATEST};
@@ -491,7 +481,6 @@ public final class EdgesOfQuestionsTest {
   }
 
   private static void orderIsSetAgain() {
-    CHECK.sentence("14: Sets the ORDER");
     QueryDesk desk = Desks.of(new int[] {2, 3, 1}, new int[] {5, 4, 5});
     Desks.ask(desk, 0);
     desk.select(0, 1);
@@ -506,7 +495,6 @@ public final class EdgesOfQuestionsTest {
   }
 
   private static void orderOfAPlannedQuestion() {
-    CHECK.sentence("14: or the question was planned");
     for (int stage = 1; stage <= 3; stage++) {
       QueryDesk desk = threeTables();
       bringToStage(desk, stage);
@@ -520,7 +508,6 @@ public final class EdgesOfQuestionsTest {
   }
 
   private static void limitOutside() {
-    CHECK.sentence("15: false (refused) if it is not 1 .. 64");
     int[] outside = {0, 65, 66, -1, -64, LEAST, GREATEST};
     for (int n : outside) {
       QueryDesk desk = threeTables();
@@ -533,7 +520,6 @@ public final class EdgesOfQuestionsTest {
   }
 
   private static void limitInside() {
-    CHECK.sentence("15: Sets the LIMIT");
     int[] inside = {1, 2, 63, 64};
     for (int n : inside) {
       QueryDesk desk = Desks.of(Desks.turns(24, 24));
@@ -547,7 +533,6 @@ public final class EdgesOfQuestionsTest {
   }
 
   private static void limitAtFirst() {
-    CHECK.sentence("Terms: a LIMIT (1 .. 64, 64 at first)");
     for (int ordered = 0; ordered < 2; ordered++) {
       QueryDesk desk = Desks.of(Desks.turns(24, 24));
       Desks.ask(desk, 0, 0);
@@ -561,7 +546,6 @@ public final class EdgesOfQuestionsTest {
   }
 
   private static void limitOfAPlannedQuestion() {
-    CHECK.sentence("15: or the question was planned");
     for (int stage = 1; stage <= 3; stage++) {
       QueryDesk desk = threeTables();
       bringToStage(desk, stage);

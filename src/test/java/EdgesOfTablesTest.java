@@ -11,45 +11,47 @@ public final class EdgesOfTablesTest {
   private static final Check CHECK = new Check("EdgesOfTablesTest");
 
   public static void main(String[] args) {
-    noTables();
-    anEmptyQuestion();
-    tablesZeroToTwo();
-    createWithColumns();
-    createWithoutRows();
-    createWithoutIndices();
-    createEmptiesEveryQuestion();
-    createRefusesTables();
-    createRefusesColumns();
-    numbersInTheirOrder();
-    numbersNeverGivenAgain();
-    numbersBeyondTheColumns();
-    insertIntoNoTable();
-    insertIntoNoTableBesideFullOnes();
-    insertAtTwentyFourRows();
-    insertAtSixtyPutIn();
-    deleteTakesOut();
-    deleteOfNoTable();
-    deleteOfNoRow();
-    updateChanges();
-    updateOfNoTable();
-    updateOfNoRow();
-    updateOfNoColumn();
-    cellTells();
-    cellOfNoTable();
-    cellOfNoRow();
-    cellOfNoColumn();
-    bothKindsOfIndex();
-    indexOfNoColumn();
-    indexOfNoKind();
-    indexOfAKindThatIsThere();
-    indexOfATableWithoutRows();
-    dropDrops();
-    dropOfNone();
+    CHECK.sentence("1: No tables", EdgesOfTablesTest::noTables);
+    CHECK.sentence("1: an empty question", EdgesOfTablesTest::anEmptyQuestion);
+    CHECK.sentence("Terms: TABLES 0 .. 2 with 1 .. 4 COLUMNS of ints", EdgesOfTablesTest::tablesZeroToTwo);
+    CHECK.sentence("2: Makes a table anew, with so many columns", EdgesOfTablesTest::createWithColumns);
+    CHECK.sentence("2: without rows", EdgesOfTablesTest::createWithoutRows);
+    CHECK.sentence("2: without rows and indices", EdgesOfTablesTest::createWithoutIndices);
+    CHECK.sentence("2: the question becomes an empty one", EdgesOfTablesTest::createEmptiesEveryQuestion);
+    CHECK.sentence("2: false (refused) if table is not 0 .. 2", EdgesOfTablesTest::createRefusesTables);
+    CHECK.sentence("2: or columns not 1 .. 4", EdgesOfTablesTest::createRefusesColumns);
+    CHECK.sentence("Terms: rows have numbers 0, 1, .. in the order in which they were put in",
+        EdgesOfTablesTest::numbersInTheirOrder);
+    CHECK.sentence("Terms: never given again", EdgesOfTablesTest::numbersNeverGivenAgain);
+    CHECK.sentence("3: (numbers beyond its columns do not count)",
+        EdgesOfTablesTest::numbersBeyondTheColumns);
+    CHECK.sentence("3: NoSuchElementException: there is no such table", EdgesOfTablesTest::insertIntoNoTable);
+    CHECK.sentence("3: else IllegalStateException", EdgesOfTablesTest::insertIntoNoTableBesideFullOnes);
+    CHECK.sentence("3: IllegalStateException: it has 24 rows", EdgesOfTablesTest::insertAtTwentyFourRows);
+    CHECK.sentence("3: or sixty were put in", EdgesOfTablesTest::insertAtSixtyPutIn);
+    CHECK.sentence("4: Takes a row out", EdgesOfTablesTest::deleteTakesOut);
+    CHECK.sentence("4: NoSuchElementException: there is no such table", EdgesOfTablesTest::deleteOfNoTable);
+    CHECK.sentence("4: or row", EdgesOfTablesTest::deleteOfNoRow);
+    CHECK.sentence("5: Changes a number of a row", EdgesOfTablesTest::updateChanges);
+    CHECK.sentence("5: NoSuchElementException: there is no such table", EdgesOfTablesTest::updateOfNoTable);
+    CHECK.sentence("5: there is no such row", EdgesOfTablesTest::updateOfNoRow);
+    CHECK.sentence("5: there is no such column", EdgesOfTablesTest::updateOfNoColumn);
+    CHECK.sentence("6: A number of a row", EdgesOfTablesTest::cellTells);
+    CHECK.sentence("6: NoSuchElementException: there is no such table", EdgesOfTablesTest::cellOfNoTable);
+    CHECK.sentence("6: there is no such row", EdgesOfTablesTest::cellOfNoRow);
+    CHECK.sentence("6: there is no such column", EdgesOfTablesTest::cellOfNoColumn);
+    CHECK.sentence("Terms: A column can have a HASH index (kind 0) and an ORDERED one (1)",
+        EdgesOfTablesTest::bothKindsOfIndex);
+    CHECK.sentence("7: false (refused) if there is no such column", EdgesOfTablesTest::indexOfNoColumn);
+    CHECK.sentence("7: or kind", EdgesOfTablesTest::indexOfNoKind);
+    CHECK.sentence("7: or it has one of the kind", EdgesOfTablesTest::indexOfAKindThatIsThere);
+    CHECK.sentence("7: Makes an index of a kind for a column", EdgesOfTablesTest::indexOfATableWithoutRows);
+    CHECK.sentence("8: Drops an index", EdgesOfTablesTest::dropDrops);
+    CHECK.sentence("8: false (refused) if there is none such", EdgesOfTablesTest::dropOfNone);
     CHECK.end();
   }
 
   private static void noTables() {
-    CHECK.sentence("1: No tables");
     for (int table = 0; table < 3; table++) {
       int t = table;
       QueryDesk desk = new QueryDesk();
@@ -65,7 +67,6 @@ public final class EdgesOfTablesTest {
   }
 
   private static void anEmptyQuestion() {
-    CHECK.sentence("1: an empty question");
     QueryDesk desk = new QueryDesk();
     checkNoQuestion(desk);
     CHECK.same("a limit can be set", desk.limit(1), true);
@@ -86,7 +87,6 @@ public final class EdgesOfTablesTest {
   }
 
   private static void tablesZeroToTwo() {
-    CHECK.sentence("Terms: TABLES 0 .. 2 with 1 .. 4 COLUMNS of ints");
     QueryDesk desk = new QueryDesk();
     for (int table = 0; table < 3; table++) {
       CHECK.same("create " + table, desk.create(table, 4), true);
@@ -102,7 +102,6 @@ public final class EdgesOfTablesTest {
   }
 
   private static void createWithColumns() {
-    CHECK.sentence("2: Makes a table anew, with so many columns");
     for (int before = 1; before <= 4; before++) {
       for (int columns = 1; columns <= 4; columns++) {
         QueryDesk desk = new QueryDesk();
@@ -122,7 +121,6 @@ public final class EdgesOfTablesTest {
   }
 
   private static void createWithoutRows() {
-    CHECK.sentence("2: without rows");
     QueryDesk desk = Desks.of(Desks.turns(24, 24));
     Desks.fill(desk, 1, Desks.turns(2, 2));
     desk.create(0, 1);
@@ -139,7 +137,6 @@ public final class EdgesOfTablesTest {
   }
 
   private static void createWithoutIndices() {
-    CHECK.sentence("2: without rows and indices");
     QueryDesk desk = new QueryDesk();
     desk.create(0, 4);
     desk.create(1, 1);
@@ -160,7 +157,6 @@ public final class EdgesOfTablesTest {
   }
 
   private static void createEmptiesEveryQuestion() {
-    CHECK.sentence("2: the question becomes an empty one");
     for (int stage = 0; stage <= 3; stage++) {
       for (int table = 0; table < 3; table++) {
         QueryDesk desk = atStage(stage);
@@ -197,7 +193,6 @@ public final class EdgesOfTablesTest {
   }
 
   private static void createRefusesTables() {
-    CHECK.sentence("2: false (refused) if table is not 0 .. 2");
     for (int table : OUTSIDE_TABLES) {
       for (int columns = 1; columns <= 4; columns++) {
         QueryDesk desk = new QueryDesk();
@@ -217,7 +212,6 @@ public final class EdgesOfTablesTest {
   }
 
   private static void createRefusesColumns() {
-    CHECK.sentence("2: or columns not 1 .. 4");
     int[] outside = {0, 5, 6, -1, LEAST, GREATEST};
     for (int columns : outside) {
       for (int table = 0; table < 3; table++) {
@@ -232,7 +226,6 @@ public final class EdgesOfTablesTest {
   }
 
   private static void numbersInTheirOrder() {
-    CHECK.sentence("Terms: rows have numbers 0, 1, .. in the order in which they were put in");
     QueryDesk desk = new QueryDesk();
     desk.create(0, 1);
     desk.create(2, 1);
@@ -247,7 +240,6 @@ public final class EdgesOfTablesTest {
   }
 
   private static void numbersNeverGivenAgain() {
-    CHECK.sentence("Terms: never given again");
     QueryDesk desk = Desks.of(new int[] {5, 6, 7});
     desk.delete(0, 2);
     CHECK.same("behind the last", desk.insert(0, 8, 0, 0, 0), 3);
@@ -266,7 +258,6 @@ public final class EdgesOfTablesTest {
   }
 
   private static void numbersBeyondTheColumns() {
-    CHECK.sentence("3: (numbers beyond its columns do not count)");
     for (int columns = 1; columns < 4; columns++) {
       int beyond = columns;
       QueryDesk desk = new QueryDesk();
@@ -288,7 +279,6 @@ public final class EdgesOfTablesTest {
   }
 
   private static void insertIntoNoTable() {
-    CHECK.sentence("3: NoSuchElementException: there is no such table");
     QueryDesk desk = new QueryDesk();
     desk.create(1, 1);
     for (int table : OUTSIDE_TABLES) {
@@ -303,7 +293,6 @@ public final class EdgesOfTablesTest {
   }
 
   private static void insertIntoNoTableBesideFullOnes() {
-    CHECK.sentence("3: else IllegalStateException");
     QueryDesk desk = Desks.of(Desks.turns(24, 24));
     Desks.fill(desk, 1, Desks.turns(24, 24));
     CHECK.fails("full", STATE, () -> desk.insert(0, 1, 1, 1, 1));
@@ -314,7 +303,6 @@ public final class EdgesOfTablesTest {
   }
 
   private static void insertAtTwentyFourRows() {
-    CHECK.sentence("3: IllegalStateException: it has 24 rows");
     QueryDesk desk = Desks.of(Desks.turns(23, 23));
     Desks.fill(desk, 1, Desks.turns(23, 23));
     CHECK.same("the 24th", desk.insert(0, 23, 0, 0, 0), 23);
@@ -332,7 +320,6 @@ public final class EdgesOfTablesTest {
   }
 
   private static void insertAtSixtyPutIn() {
-    CHECK.sentence("3: or sixty were put in");
     QueryDesk desk = new QueryDesk();
     desk.create(0, 1);
     desk.create(1, 1);
@@ -353,7 +340,6 @@ public final class EdgesOfTablesTest {
   }
 
   private static void deleteTakesOut() {
-    CHECK.sentence("4: Takes a row out");
     int[] rows = {0, 1, 12, 22, 23};
     for (int gone : rows) {
       QueryDesk desk = Desks.of(Desks.turns(24, 24), Desks.turns(24, 5));
@@ -375,7 +361,6 @@ public final class EdgesOfTablesTest {
   }
 
   private static void deleteOfNoTable() {
-    CHECK.sentence("4: NoSuchElementException: there is no such table");
     QueryDesk desk = Desks.of(new int[] {4, 5});
     for (int table : OUTSIDE_TABLES) {
       CHECK.fails("table " + table, NO_SUCH, () -> desk.delete(table, 0));
@@ -385,7 +370,6 @@ public final class EdgesOfTablesTest {
   }
 
   private static void deleteOfNoRow() {
-    CHECK.sentence("4: or row");
     QueryDesk desk = Desks.of(new int[] {4, 5, 6});
     desk.create(1, 1);
     desk.delete(0, 1);
@@ -400,7 +384,6 @@ public final class EdgesOfTablesTest {
   }
 
   private static void updateChanges() {
-    CHECK.sentence("5: Changes a number of a row");
     int[] values = {LEAST, GREATEST, 0, -1};
     for (int row = 0; row < 24; row += 23) {
       for (int column = 0; column < 2; column++) {
@@ -417,7 +400,6 @@ public final class EdgesOfTablesTest {
   }
 
   private static void updateOfNoTable() {
-    CHECK.sentence("5: NoSuchElementException: there is no such table");
     QueryDesk desk = Desks.of(new int[] {4});
     for (int table : OUTSIDE_TABLES) {
       CHECK.fails("table " + table, NO_SUCH, () -> desk.update(table, 0, 0, 9));
@@ -427,7 +409,6 @@ public final class EdgesOfTablesTest {
   }
 
   private static void updateOfNoRow() {
-    CHECK.sentence("5: there is no such row");
     QueryDesk desk = Desks.of(new int[] {4, 5, 6});
     desk.create(1, 1);
     desk.delete(0, 1);
@@ -441,7 +422,6 @@ public final class EdgesOfTablesTest {
   }
 
   private static void updateOfNoColumn() {
-    CHECK.sentence("5: there is no such column");
     for (int columns = 1; columns <= 4; columns++) {
       QueryDesk desk = new QueryDesk();
       desk.create(0, columns);
@@ -459,7 +439,6 @@ public final class EdgesOfTablesTest {
   }
 
   private static void cellTells() {
-    CHECK.sentence("6: A number of a row");
     QueryDesk desk = Desks.of(new int[] {LEAST, 1}, new int[] {GREATEST, 2}, new int[] {0, 3}, new int[] {-1, 4});
     int[] first = {LEAST, GREATEST, 0, -1};
     for (int column = 0; column < 4; column++) {
@@ -469,7 +448,6 @@ public final class EdgesOfTablesTest {
   }
 
   private static void cellOfNoTable() {
-    CHECK.sentence("6: NoSuchElementException: there is no such table");
     QueryDesk desk = Desks.of(new int[] {4});
     for (int table : OUTSIDE_TABLES) {
       CHECK.fails("table " + table, NO_SUCH, () -> desk.cell(table, 0, 0));
@@ -478,7 +456,6 @@ public final class EdgesOfTablesTest {
   }
 
   private static void cellOfNoRow() {
-    CHECK.sentence("6: there is no such row");
     QueryDesk desk = Desks.of(new int[] {4, 5, 6});
     desk.create(1, 1);
     desk.delete(0, 1);
@@ -490,7 +467,6 @@ public final class EdgesOfTablesTest {
   }
 
   private static void cellOfNoColumn() {
-    CHECK.sentence("6: there is no such column");
     for (int columns = 1; columns <= 4; columns++) {
       QueryDesk desk = new QueryDesk();
       desk.create(0, columns);
@@ -505,7 +481,6 @@ public final class EdgesOfTablesTest {
   }
 
   private static void bothKindsOfIndex() {
-    CHECK.sentence("Terms: A column can have a HASH index (kind 0) and an ORDERED one (1)");
     QueryDesk desk = Desks.of(Desks.turns(12, 12), Desks.turns(12, 12));
     CHECK.same("ORDERED", desk.index(0, 1, 1), true);
     CHECK.same("HASH beside it", desk.index(0, 1, 0), true);
@@ -520,7 +495,6 @@ public final class EdgesOfTablesTest {
   }
 
   private static void indexOfNoColumn() {
-    CHECK.sentence("7: false (refused) if there is no such column");
     for (int columns = 1; columns <= 4; columns++) {
       QueryDesk desk = new QueryDesk();
       desk.create(0, columns);
@@ -541,7 +515,6 @@ public final class EdgesOfTablesTest {
   }
 
   private static void indexOfNoKind() {
-    CHECK.sentence("7: or kind");
     QueryDesk desk = new QueryDesk();
     desk.create(0, 4);
     int[] outside = {-1, 2, 3, LEAST, GREATEST};
@@ -557,7 +530,6 @@ public final class EdgesOfTablesTest {
   }
 
   private static void indexOfAKindThatIsThere() {
-    CHECK.sentence("7: or it has one of the kind");
     for (int kind = 0; kind < 2; kind++) {
       QueryDesk desk = new QueryDesk();
       desk.create(0, 2);
@@ -574,7 +546,6 @@ public final class EdgesOfTablesTest {
   }
 
   private static void indexOfATableWithoutRows() {
-    CHECK.sentence("7: Makes an index of a kind for a column");
     for (int kind = 0; kind < 2; kind++) {
       QueryDesk desk = new QueryDesk();
       desk.create(0, 1);
@@ -590,7 +561,6 @@ public final class EdgesOfTablesTest {
   }
 
   private static void dropDrops() {
-    CHECK.sentence("8: Drops an index");
     for (int kind = 0; kind < 2; kind++) {
       QueryDesk desk = Desks.of(Desks.turns(10, 10));
       desk.index(0, 0, kind);
@@ -603,7 +573,6 @@ public final class EdgesOfTablesTest {
   }
 
   private static void dropOfNone() {
-    CHECK.sentence("8: false (refused) if there is none such");
     for (int kind = 0; kind < 2; kind++) {
       QueryDesk desk = new QueryDesk();
       desk.create(0, 2);

@@ -10,45 +10,72 @@ public final class EdgesOfWorkTest {
   private static final Check CHECK = new Check("EdgesOfWorkTest");
 
   public static void main(String[] args) {
-    runMakesAtMostSoMany();
-    runRefusesNumbers();
-    runWithNothingUnderWay();
-    lastStepAnswers();
-    lastStepOnWaysThatLeadNowhere();
-    enoughAnswers();
-    enoughAnswersAtTheLastRow();
-    tablesWithoutRows();
-    waysWithoutRows();
-    noRowFulfilsAll();
-    workingEndsAtTheLimit();
-    workingWithAnOrderEndsAtSixtyFour();
-    orderedAndThenCut();
-    fewerThanTheLimit();
-    equalOnesAsFound();
-    orderOfFarNumbers();
-    scanByNumbers();
-    hashByNumbers();
-    orderedByValue();
-    orderedByValueBehindOthers();
-    valueOfAJoinsWay();
-    readingIsOneStep();
-    allConditionsAndJoinsAreTested();
-    lastSourceGivesAnswers();
-    changesEndAQuestion();
-    updateToTheSameEndsAQuestion();
-    refusedChangesEndNoQuestion();
-    readingEndsNoQuestion();
-    changesLeaveAnAnsweredQuestion();
-    lookAtTheState();
-    lookAtTheSteps();
-    lookAtTheAnswers();
-    lookAtTheRows();
-    lookAtAnotherWhat();
-    answerBeforeOneIsThere();
-    answerOfNoNumber();
-    answerOfNoOutput();
-    answerOfNone();
-    fiveHundredAndTwelveCalls();
+    CHECK.sentence("18: Makes at most n steps: how many", EdgesOfWorkTest::runMakesAtMostSoMany);
+    CHECK.sentence("18: -1 (refused) if n is not 1 .. 200", EdgesOfWorkTest::runRefusesNumbers);
+    CHECK.sentence("18: or no question is under way", EdgesOfWorkTest::runWithNothingUnderWay);
+    CHECK.sentence("18: When nothing is left to be read the question is answered, in the call that made the last step",
+        EdgesOfWorkTest::lastStepAnswers);
+    CHECK.sentence("18: in the call that made the last step (nothing on the ways behind it)",
+        EdgesOfWorkTest::lastStepOnWaysThatLeadNowhere);
+    CHECK.sentence("18: or the answers are enough", EdgesOfWorkTest::enoughAnswers);
+    CHECK.sentence("18: or the answers are enough (and nothing is left)",
+        EdgesOfWorkTest::enoughAnswersAtTheLastRow);
+    CHECK.sentence("18: (of tables without rows in the first one, with 0 steps)",
+        EdgesOfWorkTest::tablesWithoutRows);
+    CHECK.sentence("18: When nothing is left to be read (not even at first)",
+        EdgesOfWorkTest::waysWithoutRows);
+    CHECK.sentence("Terms: for rows of the sources, one each, that fulfil all conditions and joins",
+        EdgesOfWorkTest::noRowFulfilsAll);
+    CHECK.sentence("Terms: without an ORDER the working ends when it has them",
+        EdgesOfWorkTest::workingEndsAtTheLimit);
+    CHECK.sentence("Terms: with one when it has 64", EdgesOfWorkTest::workingWithAnOrderEndsAtSixtyFour);
+    CHECK.sentence("Terms: these are ordered and then cut", EdgesOfWorkTest::orderedAndThenCut);
+    CHECK.sentence("Terms: only as many as the LIMIT says", EdgesOfWorkTest::fewerThanTheLimit);
+    CHECK.sentence("Terms: or by the ORDER (those that are equal as the plan finds them)",
+        EdgesOfWorkTest::equalOnesAsFound);
+    CHECK.sentence("Terms: perhaps an ORDER by an output, rising or falling",
+        EdgesOfWorkTest::orderOfFarNumbers);
+    CHECK.sentence("Terms: A SCAN goes through all rows by their numbers", EdgesOfWorkTest::scanByNumbers);
+    CHECK.sentence("Terms: a HASH way through the rows with the value, by their numbers",
+        EdgesOfWorkTest::hashByNumbers);
+    CHECK.sentence("Terms: an ORDERED one through the rows that fulfil its condition by value, of equal ones by number",
+        EdgesOfWorkTest::orderedByValue);
+    CHECK.sentence("Terms: by value, of equal ones by number (for each row of the sources before)",
+        EdgesOfWorkTest::orderedByValueBehindOthers);
+    CHECK.sentence("Terms: (The value of a join's way is that of the row of the source before.)",
+        EdgesOfWorkTest::valueOfAJoinsWay);
+    CHECK.sentence("Terms: READING a row is one STEP", EdgesOfWorkTest::readingIsOneStep);
+    CHECK.sentence("Terms: then all conditions on it and all joins with sources before are tested",
+        EdgesOfWorkTest::allConditionsAndJoinsAreTested);
+    CHECK.sentence("Terms: Of the last source a row that passes is an answer",
+        EdgesOfWorkTest::lastSourceGivesAnswers);
+    CHECK.sentence("Terms: a question under way ends, without an answer, when a row or an index of any table is "
+        + "put in, taken out or changed",
+        EdgesOfWorkTest::changesEndAQuestion);
+    CHECK.sentence("5: (also to what it is: that ends a question, too)",
+        EdgesOfWorkTest::updateToTheSameEndsAQuestion);
+    CHECK.sentence("Terms: What throws or is refused changes nothing (a question under way)",
+        EdgesOfWorkTest::refusedChangesEndNoQuestion);
+    CHECK.sentence("Terms: The plan is worked off with the rows as they are",
+        EdgesOfWorkTest::readingEndsNoQuestion);
+    CHECK.sentence("Terms: a question under way ends (not one that is answered, nor one that was not planned)",
+        EdgesOfWorkTest::changesLeaveAnAnsweredQuestion);
+    CHECK.sentence("19: 0 no question that was planned, 1 under way, 2 answered, 3 ended by a change (what = 0)",
+        EdgesOfWorkTest::lookAtTheState);
+    CHECK.sentence("19: the steps made (1)", EdgesOfWorkTest::lookAtTheSteps);
+    CHECK.sentence("19: the answers found so far, of an answered question those that are given (2)",
+        EdgesOfWorkTest::lookAtTheAnswers);
+    CHECK.sentence("19: rows of a table (3, 4, 5 for 0, 1, 2; -1 without the table)",
+        EdgesOfWorkTest::lookAtTheRows);
+    CHECK.sentence("19: -1 for another what", EdgesOfWorkTest::lookAtAnotherWhat);
+    CHECK.sentence("20: IllegalStateException: no question was answered; else",
+        EdgesOfWorkTest::answerBeforeOneIsThere);
+    CHECK.sentence("20: IndexOutOfBoundsException: there is no such answer",
+        EdgesOfWorkTest::answerOfNoNumber);
+    CHECK.sentence("20: or output", EdgesOfWorkTest::answerOfNoOutput);
+    CHECK.sentence("20: there is no such answer (none is there)", EdgesOfWorkTest::answerOfNone);
+    CHECK.sentence("An object is used for at most 512 calls after it has been made",
+        EdgesOfWorkTest::fiveHundredAndTwelveCalls);
     CHECK.end();
   }
 
@@ -58,7 +85,6 @@ public final class EdgesOfWorkTest {
   }
 
   private static void runMakesAtMostSoMany() {
-    CHECK.sentence("18: Makes at most n steps: how many");
     QueryDesk desk = fullTable();
     Desks.ask(desk, 0, 0);
     desk.join(0, 0, 1, 1);
@@ -75,7 +101,6 @@ public final class EdgesOfWorkTest {
   }
 
   private static void runRefusesNumbers() {
-    CHECK.sentence("18: -1 (refused) if n is not 1 .. 200");
     int[] outside = {0, 201, 202, -1, -200, LEAST, GREATEST};
     for (int n : outside) {
       QueryDesk desk = Desks.of(new int[] {1, 2, 3});
@@ -96,7 +121,6 @@ public final class EdgesOfWorkTest {
   }
 
   private static void runWithNothingUnderWay() {
-    CHECK.sentence("18: or no question is under way");
     QueryDesk desk = new QueryDesk();
     CHECK.same("a new object", desk.run(1), -1);
     Desks.fill(desk, 0, new int[] {1, 2, 3});
@@ -123,7 +147,6 @@ public final class EdgesOfWorkTest {
   }
 
   private static void lastStepAnswers() {
-    CHECK.sentence("18: When nothing is left to be read the question is answered, in the call that made the last step");
     for (int passing = 0; passing < 2; passing++) {
       QueryDesk desk = Desks.of(new int[] {1, 2, 3});
       Desks.ask(desk, 0);
@@ -145,7 +168,6 @@ public final class EdgesOfWorkTest {
   }
 
   private static void lastStepOnWaysThatLeadNowhere() {
-    CHECK.sentence("18: in the call that made the last step (nothing on the ways behind it)");
     for (int kind = 0; kind < 2; kind++) {
       QueryDesk desk = Desks.of(new int[] {1, 77});
       Desks.fill(desk, 1, Desks.turns(24, 24));
@@ -163,7 +185,6 @@ public final class EdgesOfWorkTest {
   }
 
   private static void enoughAnswers() {
-    CHECK.sentence("18: or the answers are enough");
     QueryDesk desk = Desks.of(new int[] {5, 1, 5, 5, 5});
     Desks.ask(desk, 0);
     desk.where(0, 0, 0, 5);
@@ -182,7 +203,6 @@ public final class EdgesOfWorkTest {
   }
 
   private static void enoughAnswersAtTheLastRow() {
-    CHECK.sentence("18: or the answers are enough (and nothing is left)");
     QueryDesk desk = Desks.of(new int[] {5, 6, 7});
     Desks.ask(desk, 0);
     desk.limit(3);
@@ -194,7 +214,6 @@ public final class EdgesOfWorkTest {
   }
 
   private static void tablesWithoutRows() {
-    CHECK.sentence("18: (of tables without rows in the first one, with 0 steps)");
     int[] runs = {1, 2, 200};
     int[][] tables = {{0}, {0, 0}, {0, 0, 0}, {0, 1}, {1, 0}, {1, 1, 0}, {1, 0, 1}};
     for (int n : runs) {
@@ -222,7 +241,6 @@ public final class EdgesOfWorkTest {
   }
 
   private static void waysWithoutRows() {
-    CHECK.sentence("18: When nothing is left to be read (not even at first)");
     for (int kind = 0; kind < 2; kind++) {
       QueryDesk desk = Desks.of(Desks.turns(9, 9));
       desk.index(0, 0, kind);
@@ -236,7 +254,6 @@ public final class EdgesOfWorkTest {
   }
 
   private static void noRowFulfilsAll() {
-    CHECK.sentence("Terms: for rows of the sources, one each, that fulfil all conditions and joins");
     QueryDesk desk = Desks.of(new int[] {1, 2}, new int[] {3, 4});
     Desks.ask(desk, 0, 0);
     desk.where(0, 0, 0, 1);
@@ -250,7 +267,6 @@ public final class EdgesOfWorkTest {
   }
 
   private static void workingEndsAtTheLimit() {
-    CHECK.sentence("Terms: without an ORDER the working ends when it has them");
     int[] limits = {1, 24, 25, 63, 64};
     for (int n : limits) {
       QueryDesk desk = fullTable();
@@ -264,7 +280,6 @@ public final class EdgesOfWorkTest {
   }
 
   private static void workingWithAnOrderEndsAtSixtyFour() {
-    CHECK.sentence("Terms: with one when it has 64");
     int[] limits = {1, 63, 64};
     for (int n : limits) {
       QueryDesk desk = fullTable();
@@ -282,7 +297,6 @@ public final class EdgesOfWorkTest {
   }
 
   private static void orderedAndThenCut() {
-    CHECK.sentence("Terms: these are ordered and then cut");
     QueryDesk desk = Desks.of(new int[] {3, 1, 4, 1, 5, 9, 2, 6});
     Desks.ask(desk, 0);
     desk.order(0, true);
@@ -306,7 +320,6 @@ public final class EdgesOfWorkTest {
   }
 
   private static void fewerThanTheLimit() {
-    CHECK.sentence("Terms: only as many as the LIMIT says");
     for (int ordered = 0; ordered < 2; ordered++) {
       for (int n = 1; n <= 4; n++) {
         QueryDesk desk = Desks.of(new int[] {1, 2, 3});
@@ -322,7 +335,6 @@ public final class EdgesOfWorkTest {
   }
 
   private static void equalOnesAsFound() {
-    CHECK.sentence("Terms: or by the ORDER (those that are equal as the plan finds them)");
     int[] values = {2, 1, 2, 1, 3, 2, 1};
     QueryDesk desk = Desks.of(Desks.turns(7, 7), values);
     Desks.ask(desk, 0);
@@ -343,7 +355,6 @@ public final class EdgesOfWorkTest {
   }
 
   private static void orderOfFarNumbers() {
-    CHECK.sentence("Terms: perhaps an ORDER by an output, rising or falling");
     QueryDesk desk = Desks.of(new int[] {1, LEAST, GREATEST, -1, 0});
     Desks.ask(desk, 0);
     desk.order(0, false);
@@ -354,7 +365,6 @@ public final class EdgesOfWorkTest {
   }
 
   private static void scanByNumbers() {
-    CHECK.sentence("Terms: A SCAN goes through all rows by their numbers");
     QueryDesk desk = Desks.of(new int[] {9, 3, 7, 1, 8});
     desk.delete(0, 0);
     desk.delete(0, 2);
@@ -368,7 +378,6 @@ public final class EdgesOfWorkTest {
   }
 
   private static void hashByNumbers() {
-    CHECK.sentence("Terms: a HASH way through the rows with the value, by their numbers");
     QueryDesk desk = Desks.of(Desks.turns(9, 9), new int[] {4, 1, 4, 2, 3, 4, 5, 6, 7});
     desk.index(0, 1, 0);
     desk.update(0, 8, 1, 4);
@@ -385,7 +394,6 @@ public final class EdgesOfWorkTest {
   }
 
   private static void orderedByValue() {
-    CHECK.sentence("Terms: an ORDERED one through the rows that fulfil its condition by value, of equal ones by number");
     int[] values = {4, LEAST, 4, 6, -7, 4, 800, -7, 3, GREATEST};
     QueryDesk desk = Desks.of(Desks.turns(10, 10), values);
     desk.index(0, 1, 1);
@@ -403,7 +411,6 @@ public final class EdgesOfWorkTest {
   }
 
   private static void orderedByValueBehindOthers() {
-    CHECK.sentence("Terms: by value, of equal ones by number (for each row of the sources before)");
     int[] values = {4, 3, 9, 4, 1, 8, 3, 7};
     for (int before = 1; before <= 2; before++) {
       QueryDesk desk = Desks.of(new int[] {5, 6});
@@ -435,29 +442,29 @@ public final class EdgesOfWorkTest {
   }
 
   private static void valueOfAJoinsWay() {
-    CHECK.sentence("Terms: (The value of a join's way is that of the row of the source before.)");
     for (int kind = 0; kind < 2; kind++) {
       for (int turned = 0; turned < 2; turned++) {
         QueryDesk desk = Desks.of(new int[] {7, 7, 7}, new int[] {2, LEAST, 0});
         int[] values = {0, 1, 2, 3, LEAST, GREATEST, 0, 2, 7};
-        Desks.fill(desk, 1, Desks.turns(9, 9), values);
-        desk.index(1, 1, kind);
-        Desks.ask(desk, 0, 1);
+        Desks.fill(desk, 1, values, Desks.turns(9, 9));
+        desk.index(1, 0, kind);
+        desk.from(0);
+        desk.from(1);
         if (turned == 0) {
-          desk.join(0, 1, 1, 1);
+          desk.join(0, 1, 1, 0);
         } else {
-          desk.join(1, 1, 0, 1);
+          desk.join(1, 0, 0, 1);
         }
+        desk.select(1, 1);
         desk.plan();
         CHECK.sameText("the plan", Desks.plan(desk, 2), "0,0,-1,-1 1," + (1 + kind) + ",-1,0");
         CHECK.same("rows read", desk.run(200), 3 + 5);
-        CHECK.sameText("by value, by number", Desks.output(desk, 1), "2 7 4 0 6");
+        CHECK.sameText("by value, by number", Desks.output(desk, 0), "2 7 4 0 6");
       }
     }
   }
 
   private static void readingIsOneStep() {
-    CHECK.sentence("Terms: READING a row is one STEP");
     QueryDesk desk = Desks.of(new int[] {1, 2, 3});
     Desks.ask(desk, 0, 0);
     desk.where(0, 0, 0, 2);
@@ -474,36 +481,29 @@ public final class EdgesOfWorkTest {
   }
 
   private static void allConditionsAndJoinsAreTested() {
-    CHECK.sentence("Terms: then all conditions on it and all joins with sources before are tested");
-    int[] values = Desks.turns(6, 6);
-    QueryDesk desk = Desks.of(values, new int[] {0, 0, 0, 1, 1, 1});
-    desk.index(0, 0, 0);
-    Desks.ask(desk, 0);
-    desk.where(0, 0, 0, 4);
-    desk.where(0, 1, 0, 0);
-    desk.plan();
-    CHECK.same("beside the way's own", desk.run(200), 1);
-    CHECK.same("no answer", desk.look(2), 0);
+    QueryDesk desk = Desks.of(Desks.turns(6, 6), new int[] {0, 0, 0, 1, 1, 1});
     Desks.ask(desk, 0, 0, 0);
     desk.join(0, 0, 1, 0);
     desk.join(1, 1, 2, 1);
     desk.join(2, 0, 0, 1);
-    desk.plan();
-    Desks.finish(desk);
-    CHECK.sameText("all three joins", Desks.answers(desk, 3), "0,0,0 1,1,0 2,2,0");
+    CHECK.sameText("all three joins", Desks.answersOfPlanned(desk, 3), "0,0,0 1,1,0 2,2,0");
     Desks.ask(desk, 0, 0);
     desk.where(0, 0, 2, 1);
     desk.where(0, 0, 1, 5);
     desk.where(0, 0, 3, 3);
     desk.where(1, 0, 0, 5);
     desk.order(0, false);
+    CHECK.sameText("all four conditions", Desks.answersOfPlanned(desk, 2), "2,5 4,5");
+    desk.index(0, 0, 0);
+    Desks.ask(desk, 0);
+    desk.where(0, 0, 0, 4);
+    desk.where(0, 1, 0, 0);
     desk.plan();
-    Desks.finish(desk);
-    CHECK.sameText("all four conditions", Desks.answers(desk, 2), "2,5 4,5");
+    CHECK.same("the row on a way", desk.run(200), 1);
+    CHECK.same("fails at another condition", desk.look(2), 0);
   }
 
   private static void lastSourceGivesAnswers() {
-    CHECK.sentence("Terms: Of the last source a row that passes is an answer");
     QueryDesk desk = Desks.of(new int[] {1, 2});
     for (int sources = 1; sources <= 3; sources++) {
       Desks.ask(desk, new int[sources]);
@@ -555,8 +555,6 @@ public final class EdgesOfWorkTest {
   }
 
   private static void changesEndAQuestion() {
-    CHECK.sentence("Terms: a question under way ends, without an answer, when a row or an index of any table is put in, "
-        + "taken out or changed");
     int[] steps = {0, 1, 7};
     for (int made : steps) {
       for (int table = 0; table < 3; table++) {
@@ -574,7 +572,6 @@ public final class EdgesOfWorkTest {
   }
 
   private static void updateToTheSameEndsAQuestion() {
-    CHECK.sentence("5: (also to what it is: that ends a question, too)");
     for (int table = 0; table < 3; table++) {
       QueryDesk desk = underWay(1);
       desk.update(table, 1, 0, desk.cell(table, 1, 0));
@@ -583,7 +580,6 @@ public final class EdgesOfWorkTest {
   }
 
   private static void refusedChangesEndNoQuestion() {
-    CHECK.sentence("Terms: What throws or is refused changes nothing (a question under way)");
     QueryDesk desk = underWay(2);
     CHECK.fails("insert", NO_SUCH, () -> desk.insert(3, 1, 1, 1, 1));
     CHECK.fails("delete", NO_SUCH, () -> desk.delete(0, 3));
@@ -604,7 +600,6 @@ public final class EdgesOfWorkTest {
   }
 
   private static void readingEndsNoQuestion() {
-    CHECK.sentence("Terms: The plan is worked off with the rows as they are");
     QueryDesk desk = underWay(2);
     desk.cell(0, 0, 0);
     desk.look(0);
@@ -616,7 +611,6 @@ public final class EdgesOfWorkTest {
   }
 
   private static void changesLeaveAnAnsweredQuestion() {
-    CHECK.sentence("Terms: a question under way ends (not one that is answered, nor one that was not planned)");
     for (int change = 0; change < 5; change++) {
       QueryDesk desk = underWay(200);
       makeChange(desk, 0, change);
@@ -634,7 +628,6 @@ public final class EdgesOfWorkTest {
   }
 
   private static void lookAtTheState() {
-    CHECK.sentence("19: 0 no question that was planned, 1 under way, 2 answered, 3 ended by a change (what = 0)");
     QueryDesk desk = new QueryDesk();
     CHECK.same("a new object", desk.look(0), 0);
     Desks.fill(desk, 0, new int[] {1, 2});
@@ -657,7 +650,6 @@ public final class EdgesOfWorkTest {
   }
 
   private static void lookAtTheSteps() {
-    CHECK.sentence("19: the steps made (1)");
     QueryDesk desk = new QueryDesk();
     CHECK.same("a new object", desk.look(1), 0);
     Desks.fill(desk, 0, new int[] {1, 2, 3});
@@ -674,7 +666,6 @@ public final class EdgesOfWorkTest {
   }
 
   private static void lookAtTheAnswers() {
-    CHECK.sentence("19: the answers found so far, of an answered question those that are given (2)");
     QueryDesk desk = new QueryDesk();
     CHECK.same("a new object", desk.look(2), 0);
     Desks.fill(desk, 0, new int[] {1, 2, 3, 4});
@@ -693,7 +684,6 @@ public final class EdgesOfWorkTest {
   }
 
   private static void lookAtTheRows() {
-    CHECK.sentence("19: rows of a table (3, 4, 5 for 0, 1, 2; -1 without the table)");
     for (int table = 0; table < 3; table++) {
       QueryDesk desk = new QueryDesk();
       desk.create(table, 1);
@@ -710,7 +700,6 @@ public final class EdgesOfWorkTest {
   }
 
   private static void lookAtAnotherWhat() {
-    CHECK.sentence("19: -1 for another what");
     QueryDesk desk = underWay(1);
     int[] outside = {-1, 6, 7, -2, LEAST, GREATEST};
     for (int what : outside) {
@@ -720,7 +709,6 @@ public final class EdgesOfWorkTest {
   }
 
   private static void answerBeforeOneIsThere() {
-    CHECK.sentence("20: IllegalStateException: no question was answered; else");
     QueryDesk desk = new QueryDesk();
     checkNotAnswered("a new object", desk);
     Desks.fill(desk, 0, new int[] {1, 2, 3});
@@ -750,7 +738,6 @@ public final class EdgesOfWorkTest {
   }
 
   private static void answerOfNoNumber() {
-    CHECK.sentence("20: IndexOutOfBoundsException: there is no such answer");
     for (int n = 1; n <= 4; n++) {
       for (int ordered = 0; ordered < 2; ordered++) {
         QueryDesk desk = Desks.of(new int[] {1, 2, 3});
@@ -775,10 +762,14 @@ public final class EdgesOfWorkTest {
     Desks.finish(desk);
     CHECK.same("the 64th", desk.answer(63, 0), 0);
     CHECK.fails("the 65th", BOUNDS, () -> desk.answer(64, 0));
+    Desks.ask(desk, 0, 0);
+    desk.limit(2);
+    desk.plan();
+    Desks.finish(desk);
+    CHECK.fails("one of the question before", BOUNDS, () -> desk.answer(2, 0));
   }
 
   private static void answerOfNoOutput() {
-    CHECK.sentence("20: or output");
     for (int outputs = 1; outputs <= 4; outputs++) {
       QueryDesk desk = Desks.of(new int[] {1, 2, 3});
       desk.from(0);
@@ -797,7 +788,6 @@ public final class EdgesOfWorkTest {
   }
 
   private static void answerOfNone() {
-    CHECK.sentence("20: there is no such answer (none is there)");
     QueryDesk desk = Desks.of(new int[] {1, 2, 3});
     Desks.ask(desk, 0);
     desk.where(0, 0, 0, 4);
@@ -811,7 +801,6 @@ public final class EdgesOfWorkTest {
   }
 
   private static void fiveHundredAndTwelveCalls() {
-    CHECK.sentence("An object is used for at most 512 calls after it has been made");
     QueryDesk desk = new QueryDesk();
     desk.create(0, 1);
     desk.insert(0, 6, 0, 0, 0);

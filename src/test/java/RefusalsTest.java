@@ -30,10 +30,9 @@ public final class RefusalsTest {
 
   public static void main(String[] args) {
     for (int stage = 0; stage < STAGES; stage++) {
-      CHECK.sentence("Terms: What throws or is refused changes nothing (" + STAGE_NAMES[stage] + ")");
       RefusalsTest test = new RefusalsTest(stage);
       test.gather();
-      test.check();
+      CHECK.sentence("Terms: What throws or is refused changes nothing (" + STAGE_NAMES[stage] + ")", test::check);
     }
     CHECK.end();
   }
