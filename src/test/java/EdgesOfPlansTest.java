@@ -143,17 +143,22 @@ public final class EdgesOfPlansTest {
   }
 
   private static void valuesOfTheRowsThatAreThere() {
-    QueryDesk desk = Desks.of(new int[] {-90, 3, 3, 10, 90});
+    int[][] columns = {{-90, 3, 3, 10}, {90, 3, 3, 10}, {3, 3, 10, -90}, {3, 3, 10, 90}};
+    for (int[] column : columns) {
+      QueryDesk desk = Desks.of(column);
+      Desks.fill(desk, 1, Desks.turns(24, 24));
+      desk.delete(0, column[0] == 3 ? 3 : 0);
+      CHECK.sameFloat("LEAST without the row taken out", costOf(desk, 1, 5), dueWith(3f, 2f / 8f));
+      CHECK.sameFloat("GREATEST without the row taken out", costOf(desk, 2, 5), dueWith(3f, 5f / 8f));
+      CHECK.sameFloat("VALUES without the row taken out", costOf(desk, 0, 5), dueWith(3f, 1f / 2f));
+    }
+    QueryDesk desk = Desks.of(new int[] {3, 3, 10});
     Desks.fill(desk, 1, Desks.turns(24, 24));
-    desk.delete(0, 0);
-    desk.delete(0, 4);
-    CHECK.sameFloat("LEAST without those taken out", costOf(desk, 1, 5), dueWith(3f, 2f / 8f));
-    CHECK.sameFloat("GREATEST without those taken out", costOf(desk, 2, 5), dueWith(3f, 5f / 8f));
-    CHECK.sameFloat("VALUES without those taken out", costOf(desk, 0, 5), dueWith(3f, 1f / 2f));
-    desk.update(0, 1, 0, 4);
-    desk.update(0, 3, 0, 6);
-    CHECK.sameFloat("LEAST of those changed", costOf(desk, 1, 5), dueWith(3f, 2f / 4f));
-    CHECK.sameFloat("GREATEST of those changed", costOf(desk, 2, 5), dueWith(3f, 1f / 4f));
+    desk.update(0, 0, 0, 4);
+    desk.update(0, 1, 0, 5);
+    desk.update(0, 2, 0, 7);
+    CHECK.sameFloat("LEAST of those changed", costOf(desk, 1, 5), dueWith(3f, 1f / 4f));
+    CHECK.sameFloat("GREATEST of those changed", costOf(desk, 2, 5), dueWith(3f, 2f / 4f));
     CHECK.sameFloat("VALUES of those changed", costOf(desk, 0, 5), dueWith(3f, 1f / 3f));
   }
 
